@@ -1,484 +1,557 @@
-/** Promises 10 to 17: the cloth, the pass, and the sums. */
+/** Promises 10 and 13 to 17: the cloth, its rows and cells, and the sums. */
 public final class ClothTest {
     private static final Due DUE = new Due();
-    private static final Class<IllegalArgumentException> ARGUMENT = IllegalArgumentException.class;
-    private static final Class<IllegalStateException> STATE = IllegalStateException.class;
-    private static final Class<IndexOutOfBoundsException> INDEX = IndexOutOfBoundsException.class;
-    private static final Class<UnsupportedOperationException> UNSUPPORTED = UnsupportedOperationException.class;
-    private static final int THREADS = 0;
-    private static final int TURNS = 1;
-    private static final int PULLS = 2;
-    private static final int LIFTS = 3;
-    private static final int WEAR = 4;
-    private static final int CLOTH = 5;
-    private static final int[] NO_ROWS = {-1, 2, 40, Integer.MIN_VALUE, Integer.MAX_VALUE};
+    private static final Class<IllegalArgumentException> ARGUMENT = Looms.ARGUMENT;
+    private static final Class<IllegalStateException> STATE = Looms.STATE;
+    private static final Class<IndexOutOfBoundsException> INDEX = Looms.INDEX;
+    private static final Class<UnsupportedOperationException> UNSUPPORTED = Looms.UNSUPPORTED;
+    private static final int LOWEST = Looms.LOWEST;
+    private static final int HIGHEST = Looms.HIGHEST;
+    private static final int CUT = Looms.CUT_ROW;
+    /** worked() has rows 0 to 2 and columns 0 to 4. */
+    private static final int[] NO_ROWS = {-1, 3, 4, 39, 40, LOWEST, HIGHEST};
+    private static final int[] NO_COLUMNS = {-1, 5, 6, 39, 40, LOWEST, HIGHEST};
+    private static final String WEAVE = "Promise 10";
+    private static final String CUTS = "Promise 13";
+    private static final String CELL = "Promise 14";
+    private static final String DYE = "Promise 15";
+    private static final String SEAM = "Promise 16";
+    private static final String SUM = "Promise 17";
+    private static final String NO_CLOTH = "IllegalStateException: there is no cloth, or the row is CUT";
+    private static final String NO_SUCH = "IndexOutOfBoundsException: there is no such row, or column.";
+    private static final String NO_ROW = "IndexOutOfBoundsException: it has no such row.";
 
     public static void main(String[] args) {
         weaveMakesANewCloth();
-        weaveRefuses();
-        passGoesThroughAllColumns();
-        passFitsWhatItPuts();
-        passStopsAtEachReel();
-        passStopsAtACutRow();
-        passLooksOnlyAtWhatItNeeds();
-        passWithoutColumns();
-        passRefuses();
-        stopTellsTheLatestPass();
-        cutTakesOneRow();
-        cellRefuses();
-        dyeCombines();
-        dyeRefuses();
+        weaveTakesTheOldClothAway();
+        weaveAnswersHowManyCells();
+        weaveOfTooMany();
+        weaveOfTooFew();
+        cutAnswersTheColumns();
+        cutWithoutAClothOrTwice();
+        cutOfNoSuchRow();
+        cellOfTheCloth();
+        cellWithoutAClothOrCut();
+        cellOfNoSuchRowOrColumn();
+        dyeAlters();
+        dyeWrapsAsInts();
+        dyeByTheLowestFiveBits();
+        dyePutsAnInt();
+        dyeOfOneCell();
+        dyeOfAnotherHow();
+        dyeWithoutAClothOrCut();
+        dyeOfNoSuchRowOrColumn();
         seamCounts();
-        seamRefuses();
-        sumWeighsTheCells();
-        sumCounts();
-        refusedCallsChangeNothing();
+        seamOfARowWithItself();
+        seamOfNoColumnsAndOfAll();
+        seamWithoutAClothOrCut();
+        seamOfNoSuchRow();
+        sumOfTheCells();
+        sumOfFullReels();
+        sumOfReelsThatAreOff();
+        sumOfRowsAndColumns();
+        sumOfCutRows();
+        sumWithoutACloth();
+        sumOfAnotherWhat();
         DUE.end("ClothTest");
     }
 
+    private static void clothIs(String when, ReelLoom x, int rows, int columns, int cut) {
+        DUE.answers(when + ": sum(2)", rows, () -> x.sum(2));
+        DUE.answers(when + ": sum(3)", columns, () -> x.sum(3));
+        DUE.answers(when + ": sum(4)", cut, () -> x.sum(4));
+    }
+
     private static void weaveMakesANewCloth() {
-        ReelLoom x = new ReelLoom();
-        DUE.answers("weave(2, 3)", 6, () -> x.weave(2, 3));
-        DUE.answers("cell(1, 2)", 0, () -> x.cell(1, 2));
-        x.dye(1, 2, 0, 9);
-        x.cut(0);
-        DUE.answers("weave(40, 40)", 1600, () -> x.weave(40, 40));
-        DUE.answers("cell(1, 2) anew", 0, () -> x.cell(1, 2));
-        DUE.answers("cell(0, 0) is not cut", 0, () -> x.cell(0, 0));
-        DUE.answers("no row is cut", 0, () -> x.sum(4));
-        x.dye(39, 39, 0, 5);
-        DUE.answers("cell(39, 39)", 5, () -> x.cell(39, 39));
-        x.cut(39);
-        DUE.answers("weave(1, 1)", 1, () -> x.weave(1, 1));
-        DUE.refuses("cell(39, 39) is gone", INDEX, () -> x.cell(39, 39));
-        x.weave(40, 40);
-        DUE.answers("cell(39, 39) anew", 0, () -> x.cell(39, 39));
-        DUE.answers("weave(0, 40)", 0, () -> x.weave(0, 40));
-        DUE.refuses("a cloth without rows", INDEX, () -> x.cell(0, 0));
-        DUE.answers("its columns", 40, () -> x.sum(3));
-        DUE.answers("weave(40, 0)", 0, () -> x.weave(40, 0));
-        DUE.refuses("a cloth without columns", INDEX, () -> x.cell(39, 0));
-        DUE.answers("its rows", 40, () -> x.sum(2));
-        DUE.answers("weave(0, 0)", 0, () -> x.weave(0, 0));
-        DUE.answers("a cloth without both", 0, () -> x.sum(2));
-    }
-
-    private static void weaveRefuses() {
-        ReelLoom x = new ReelLoom();
-        DUE.refuses("weave(-1, 1) without a cloth", ARGUMENT, () -> x.weave(-1, 1));
-        DUE.answers("there is none still", -1, () -> x.sum(2));
-        x.weave(1, 2);
-        x.dye(0, 1, 0, 8);
-        int highest = Integer.MAX_VALUE;
-        int lowest = Integer.MIN_VALUE;
-        for (int[] size : new int[][] {{41, 1}, {1, 41}, {41, 41}, {41, -1}, {-1, 41}, {highest, lowest}, {0, highest}}) {
-            DUE.refuses("weave(" + size[0] + ", " + size[1] + ")", UNSUPPORTED, () -> x.weave(size[0], size[1]));
-        }
-        for (int[] size : new int[][] {{-1, 1}, {1, -1}, {-1, -1}, {40, -1}, {-1, 40}, {lowest, 0}, {0, lowest}}) {
-            DUE.refuses("weave(" + size[0] + ", " + size[1] + ")", ARGUMENT, () -> x.weave(size[0], size[1]));
-        }
-        DUE.answers("the cloth stays", 8, () -> x.cell(0, 1));
-        DUE.answers("its rows stay", 1, () -> x.sum(2));
-        DUE.answers("its columns stay", 2, () -> x.sum(3));
-    }
-
-    /** Reels of so many cells, every one lifted, and a cloth of two rows and three columns. */
-    private static ReelLoom lifted(int cells) {
-        ReelLoom x = new ReelLoom();
-        for (int sort = 0; sort < 5; sort++) {
-            x.mount(sort, cells);
-        }
-        for (int i = 0; i < cells; i++) {
-            x.set(LIFTS, i, 1);
-            x.set(THREADS, i, 101 + i);
-        }
-        x.weave(2, 3);
-        return x;
-    }
-
-    private static void stopped(String when, ReelLoom x, int kind, int sort, int column) {
-        DUE.answers(when + ": stop(0)", kind, () -> x.stop(0));
-        DUE.answers(when + ": stop(1)", sort, () -> x.stop(1));
-        DUE.answers(when + ": stop(2)", column, () -> x.stop(2));
-    }
-
-    /** What column c has of the cloth's row 1, of TURNS, PULLS and WEAR. */
-    private static void column(String when, ReelLoom x, int c, int... due) {
-        DUE.answers(when + ": cell(1, " + c + ")", due[0], () -> x.cell(1, c));
-        DUE.answers(when + ": turns " + c, due[1], () -> x.get(TURNS, c));
-        DUE.answers(when + ": pulls " + c, due[2], () -> x.get(PULLS, c));
-        DUE.answers(when + ": wear " + c, due[3], () -> x.get(WEAR, c));
-    }
-
-    private static void passGoesThroughAllColumns() {
-        ReelLoom x = lifted(4);
-        x.set(LIFTS, 1, 0);
-        DUE.answers("pass(1, 65535)", 3, () -> x.pass(1, 65535));
-        stopped("whole", x, 0, 0, 3);
-        column("whole", x, 0, 101, 1, 2, 1);
-        column("whole", x, 1, 65535, 1, -1, 0);
-        column("whole", x, 2, 103, 1, 2, 1);
-        DUE.answers("turns behind the cloth", 0, () -> x.get(TURNS, 3));
-        DUE.answers("the other row", 0, () -> x.cell(0, 0));
-        x.set(LIFTS, 0, 0);
-        DUE.answers("pass(1, 0)", 3, () -> x.pass(1, 0));
-        column("again", x, 0, 0, 2, 1, 1);
-        column("again", x, 1, 0, 2, -2, 0);
-        column("again", x, 2, 103, 2, 4, 2);
-        DUE.answers("threads stay", 101, () -> x.get(THREADS, 0));
-        DUE.answers("lifts stay", 1, () -> x.get(LIFTS, 2));
-    }
-
-    private static void passFitsWhatItPuts() {
-        ReelLoom x = lifted(3);
-        x.set(THREADS, 0, 65535);
-        x.set(TURNS, 0, 32767);
-        x.set(PULLS, 0, 799999);
-        x.set(WEAR, 0, 127);
-        x.set(LIFTS, 1, 0);
-        x.set(PULLS, 1, -800000);
-        x.set(PULLS, 2, 800000);
-        x.set(TURNS, 2, -1);
-        x.set(WEAR, 2, -1);
-        DUE.answers("pass at the ends of the ranges", 3, () -> x.pass(1, 4));
-        column("ends", x, 0, 65535, -32768, 800000, -128);
-        column("ends", x, 1, 4, 1, -800000, 0);
-        column("ends", x, 2, 103, 0, 800000, 0);
-    }
-
-    /** Takes a reel off, or cuts it down to one cell, which leaves it as it was there. */
-    private static void shorten(ReelLoom x, int sort, int cells) {
-        int first = x.get(sort, 0);
-        x.off(sort);
-        if (cells == 1) {
-            x.mount(sort, 1);
-            x.set(sort, 0, first);
-        }
-    }
-
-    private static void passStopsAtEachReel() {
-        for (int sort = 0; sort < 5; sort++) {
-            for (int cells = 0; cells < 2; cells++) {
-                stoppedPass(sort, cells);
+        DUE.sentence(WEAVE, "A new cloth of so many rows and columns");
+        for (int rows : new int[] {0, 1, 2, 39, 40}) {
+            for (int columns : new int[] {0, 1, 2, 39, 40}) {
+                ReelLoom x = new ReelLoom();
+                x.weave(rows, columns);
+                String when = "weave(" + rows + ", " + columns + ")";
+                clothIs(when, x, rows, columns, 0);
+                DUE.refuses(when + ": the row beyond", INDEX, () -> x.cell(rows, 0));
+                if (rows > 0) {
+                    DUE.refuses(when + ": the column beyond", INDEX, () -> x.cell(rows - 1, columns));
+                }
+                if (rows > 0 && columns > 0) {
+                    DUE.answers(when + ": the first cell", 0, () -> x.cell(0, 0));
+                    DUE.answers(when + ": the last cell", 0, () -> x.cell(rows - 1, columns - 1));
+                }
             }
         }
     }
 
-    private static void stoppedPass(int sort, int cells) {
-        String when = "sort " + sort + " with " + cells;
-        ReelLoom x = lifted(3);
-        shorten(x, sort, cells);
-        DUE.answers(when + ": pass", cells, () -> x.pass(1, 9));
-        stopped(when, x, cells == 0 ? 1 : 2, sort, cells);
-        boolean wove = sort != LIFTS && sort != THREADS;
-        boolean turned = wove && sort != TURNS;
-        boolean pulled = turned && sort != PULLS;
-        DUE.answers(when + ": cell", wove ? 101 + cells : 0, () -> x.cell(1, cells));
-        DUE.answers(when + ": the next cell", 0, () -> x.cell(1, cells + 1));
-        if (sort != TURNS) {
-            DUE.answers(when + ": turns", turned ? 1 : 0, () -> x.get(TURNS, cells));
-        }
-        if (sort != PULLS) {
-            DUE.answers(when + ": pulls", pulled ? 2 : 0, () -> x.get(PULLS, cells));
-        }
-        if (sort != WEAR) {
-            DUE.answers(when + ": wear", 0, () -> x.get(WEAR, cells));
-        }
-        if (cells == 1) {
-            column(when, x, 0, 101, 1, 2, 1);
+    private static void weaveTakesTheOldClothAway() {
+        DUE.sentence(WEAVE, "(the one that was there is gone)");
+        for (int rows : new int[] {1, 2, 39, 40}) {
+            for (int columns : new int[] {1, 2, 39, 40}) {
+                ReelLoom x = new ReelLoom();
+                x.weave(40, 40);
+                for (int i = 0; i < 40; i++) {
+                    x.dye(i, i, 0, 7);
+                    x.dye(i, 39, 0, 7);
+                    x.dye(39, i, 0, 7);
+                }
+                for (int row = 0; row < 40; row++) {
+                    x.cut(row);
+                }
+                x.weave(rows, columns);
+                clothIs("weave(" + rows + ", " + columns + ") over a full one", x, rows, columns, 0);
+                cellsAreNought(x, rows, columns);
+                x.weave(40, 40);
+                clothIs("a full one behind " + rows + " x " + columns, x, 40, 40, 0);
+                cellsAreNought(x, 40, 40);
+            }
         }
     }
 
-    private static void passStopsAtACutRow() {
-        ReelLoom x = lifted(3);
-        x.cut(1);
-        DUE.answers("pass through a cut row", 0, () -> x.pass(1, 9));
-        stopped("cut", x, 1, CLOTH, 0);
-        DUE.answers("cut: turns", 0, () -> x.get(TURNS, 0));
-        DUE.answers("cut: pulls", 0, () -> x.get(PULLS, 0));
-        DUE.answers("cut: wear", 0, () -> x.get(WEAR, 0));
-        DUE.answers("pass beside the cut row", 3, () -> x.pass(0, 9));
-        x.off(TURNS);
-        x.pass(1, 9);
-        stopped("cut comes ahead of turns", x, 1, CLOTH, 0);
-        x.mount(THREADS, 0);
-        x.pass(1, 9);
-        stopped("threads come ahead of cut", x, 2, THREADS, 0);
-        x.set(LIFTS, 0, 0);
-        x.pass(1, 9);
-        stopped("cut, threads not wanted", x, 1, CLOTH, 0);
-        x.off(LIFTS);
-        x.pass(1, 9);
-        stopped("lifts come ahead of all", x, 1, LIFTS, 0);
+    /** Looks at the cells along two sides and the slanting line. */
+    private static void cellsAreNought(ReelLoom x, int rows, int columns) {
+        for (int i = 0; i < Math.max(rows, columns); i++) {
+            int row = Math.min(i, rows - 1);
+            int column = Math.min(i, columns - 1);
+            DUE.answers("cell(" + row + ", " + column + ")", 0, () -> x.cell(row, column));
+            DUE.answers("cell(" + row + ", " + (columns - 1) + ")", 0, () -> x.cell(row, columns - 1));
+            DUE.answers("cell(" + (rows - 1) + ", " + column + ")", 0, () -> x.cell(rows - 1, column));
+        }
     }
 
-    private static void passLooksOnlyAtWhatItNeeds() {
-        ReelLoom x = lifted(3);
-        x.mount(LIFTS, 3);
-        x.off(THREADS);
-        x.off(WEAR);
-        DUE.answers("nothing lifted", 3, () -> x.pass(1, 9));
-        stopped("nothing lifted", x, 0, 0, 3);
-        DUE.answers("nothing lifted: cell", 9, () -> x.cell(1, 2));
-        DUE.answers("nothing lifted: pulls", -1, () -> x.get(PULLS, 2));
-        x.set(LIFTS, 2, 1);
-        DUE.answers("the last one lifted", 2, () -> x.pass(1, 8));
-        stopped("the last one lifted", x, 1, THREADS, 2);
-        DUE.answers("the last one's cell stays", 9, () -> x.cell(1, 2));
-        x.mount(THREADS, 3);
-        DUE.answers("without wear", 2, () -> x.pass(1, 7));
-        stopped("without wear", x, 1, WEAR, 2);
-        DUE.answers("without wear: cell", 0, () -> x.cell(1, 2));
-        DUE.answers("without wear: turns", 2, () -> x.get(TURNS, 2));
-        DUE.answers("without wear: pulls", 1, () -> x.get(PULLS, 2));
-        x.mount(WEAR, 2);
-        x.pass(1, 7);
-        stopped("wear too short", x, 2, WEAR, 2);
-        x.copy(WEAR);
-        x.mount(WEAR, 3);
-        x.swap(WEAR);
-        x.pass(1, 7);
-        stopped("the spare does not help", x, 2, WEAR, 2);
-    }
-
-    private static void passWithoutColumns() {
+    private static void weaveAnswersHowManyCells() {
+        DUE.sentence(WEAVE, "how many cells it has");
+        int[][] dues = {{0, 0, 0}, {0, 1, 0}, {1, 0, 0}, {0, 40, 0}, {40, 0, 0}, {1, 1, 1}, {1, 40, 40}, {40, 1, 40},
+            {2, 3, 6}, {39, 39, 1521}, {39, 40, 1560}, {40, 39, 1560}, {40, 40, 1600}};
         ReelLoom x = new ReelLoom();
-        x.weave(2, 1);
-        x.pass(0, 1);
-        stopped("a new object's pass", x, 1, LIFTS, 0);
-        x.weave(2, 0);
-        DUE.answers("no columns, no reels", 0, () -> x.pass(0, 1));
-        stopped("no columns, no reels", x, 0, 0, 0);
-        x.cut(1);
-        DUE.answers("no columns, cut", 0, () -> x.pass(1, 1));
-        stopped("no columns, cut", x, 0, 0, 0);
-        x.weave(0, 3);
-        DUE.refuses("no rows", INDEX, () -> x.pass(0, 1));
+        for (int[] due : dues) {
+            DUE.answers("weave(" + due[0] + ", " + due[1] + ")", due[2], () -> x.weave(due[0], due[1]));
+        }
     }
 
-    private static void passRefuses() {
+    private static void weaveOfTooMany() {
+        DUE.sentence(WEAVE, "UnsupportedOperationException: one of both is above 40");
+        for (int[] size : new int[][] {{41, 0}, {0, 41}, {41, 1}, {1, 41}, {41, 40}, {40, 41}, {41, 41},
+            {HIGHEST, 1}, {1, HIGHEST}, {HIGHEST, HIGHEST}, {65536, 65536}}) {
+            String call = "weave(" + size[0] + ", " + size[1] + ")";
+            DUE.refuses(call, UNSUPPORTED, Looms::worked, x -> x.weave(size[0], size[1]));
+            DUE.refuses(call + " of a new object", UNSUPPORTED, ReelLoom::new, x -> x.weave(size[0], size[1]));
+        }
+    }
+
+    private static void weaveOfTooFew() {
+        DUE.sentence(WEAVE, "IllegalArgumentException: one of both is below 0 (then the cloth that was there stays).");
+        for (int[] size : new int[][] {{-1, 0}, {0, -1}, {-1, 1}, {1, -1}, {-1, 40}, {40, -1}, {-1, -1},
+            {LOWEST, 1}, {1, LOWEST}, {LOWEST, LOWEST}}) {
+            String call = "weave(" + size[0] + ", " + size[1] + ")";
+            DUE.refuses(call, ARGUMENT, Looms::worked, x -> x.weave(size[0], size[1]));
+            DUE.refuses(call + " of a new object", ARGUMENT, ReelLoom::new, x -> x.weave(size[0], size[1]));
+            ReelLoom empty = new ReelLoom();
+            empty.weave(0, 3);
+            DUE.refuses(call + " over a cloth of no rows", ARGUMENT, () -> empty.weave(size[0], size[1]));
+            clothIs("behind " + call, empty, 0, 3, 0);
+        }
+    }
+
+    private static void cutAnswersTheColumns() {
+        DUE.sentence(CUTS, "A row of the cloth is CUT: how many columns it had.");
+        for (int rows : new int[] {1, 2, 40}) {
+            for (int columns : new int[] {0, 1, 39, 40}) {
+                ReelLoom x = new ReelLoom();
+                x.weave(rows, columns);
+                for (int k = rows - 1; k >= 0; k--) {
+                    int row = k;
+                    DUE.answers("cut(" + row + ") of " + columns + " columns", columns, () -> x.cut(row));
+                    DUE.answers("rows that are CUT", rows - row, () -> x.sum(4));
+                }
+                DUE.answers("rows in all", rows, () -> x.sum(2));
+            }
+        }
+    }
+
+    private static void cutWithoutAClothOrTwice() {
+        DUE.sentence(CUTS, NO_CLOTH);
+        for (int row : new int[] {0, 1, -1, 40}) {
+            DUE.refuses("cut(" + row + ") without a cloth", STATE, Looms::clothless, x -> x.cut(row));
+        }
+        DUE.refuses("cut(1) twice", STATE, Looms::worked, x -> x.cut(CUT));
         ReelLoom x = new ReelLoom();
-        DUE.refuses("pass without a cloth", STATE, () -> x.pass(-1, 0));
-        for (int colour : new int[] {-1, 65536, Integer.MIN_VALUE, Integer.MAX_VALUE}) {
-            DUE.refuses("colour " + colour + " without a cloth", ARGUMENT, () -> x.pass(-1, colour));
-        }
-        x.weave(2, 2);
-        for (int row : NO_ROWS) {
-            DUE.refuses("pass(" + row + ", 65535)", INDEX, () -> x.pass(row, 65535));
-            DUE.refuses("pass(" + row + ", 65536)", ARGUMENT, () -> x.pass(row, 65536));
-        }
-        DUE.refuses("pass(0, -1)", ARGUMENT, () -> x.pass(0, -1));
-    }
-
-    private static void stopTellsTheLatestPass() {
-        ReelLoom x = lifted(2);
-        x.pass(0, 1);
-        stopped("first", x, 2, LIFTS, 2);
-        DUE.refuses("pass(2, 1)", INDEX, () -> x.pass(2, 1));
-        DUE.refuses("pass(0, -1)", ARGUMENT, () -> x.pass(0, -1));
-        stopped("after refused ones", x, 2, LIFTS, 2);
-        x.mount(LIFTS, 3);
-        x.weave(1, 1);
-        stopped("after a new cloth", x, 2, LIFTS, 2);
-        x.pass(0, 1);
-        stopped("second", x, 0, 0, 1);
-        for (int what : new int[] {-1, 3, Integer.MIN_VALUE, Integer.MAX_VALUE}) {
-            DUE.refuses("stop(" + what + ")", ARGUMENT, () -> x.stop(what));
-        }
-    }
-
-    private static void cutTakesOneRow() {
-        ReelLoom x = new ReelLoom();
-        DUE.refuses("cut without a cloth", STATE, () -> x.cut(-1));
-        x.weave(2, 3);
-        x.dye(1, 0, 0, 6);
-        for (int row : NO_ROWS) {
-            DUE.refuses("cut(" + row + ")", INDEX, () -> x.cut(row));
-        }
-        DUE.answers("cut(0)", 3, () -> x.cut(0));
-        DUE.refuses("cut(0) again", STATE, () -> x.cut(0));
-        DUE.refuses("cell(0, 0)", STATE, () -> x.cell(0, 0));
-        DUE.answers("the other row stays where it is", 6, () -> x.cell(1, 0));
-        DUE.answers("rows", 2, () -> x.sum(2));
-        DUE.answers("rows cut", 1, () -> x.sum(4));
-        DUE.answers("cut(1)", 3, () -> x.cut(1));
-        DUE.refuses("cut(2)", INDEX, () -> x.cut(2));
         x.weave(1, 0);
-        DUE.answers("cut without columns", 0, () -> x.cut(0));
+        x.cut(0);
+        DUE.refuses("cut(0) twice, no columns", STATE, () -> x.cut(0));
+        x.weave(1, 0);
+        DUE.answers("cut(0) of a new cloth", 0, () -> x.cut(0));
     }
 
-    private static void cellRefuses() {
-        ReelLoom x = new ReelLoom();
-        DUE.refuses("cell without a cloth", STATE, () -> x.cell(-1, -1));
-        x.weave(2, 3);
-        x.cut(1);
+    private static void cutOfNoSuchRow() {
+        DUE.sentence(CUTS, NO_ROW);
         for (int row : NO_ROWS) {
-            DUE.refuses("cell(" + row + ", 0)", INDEX, () -> x.cell(row, 0));
+            DUE.refuses("cut(" + row + ")", INDEX, Looms::worked, x -> x.cut(row));
         }
-        for (int column : new int[] {-1, 3, 40, Integer.MIN_VALUE, Integer.MAX_VALUE}) {
-            DUE.refuses("cell(0, " + column + ")", INDEX, () -> x.cell(0, column));
-            DUE.refuses("cut comes first", STATE, () -> x.cell(1, column));
+        for (int row : new int[] {-1, 0, 1}) {
+            DUE.refuses("cut(" + row + ") of no rows", INDEX, () -> Looms.workedOn(0, 4), x -> x.cut(row));
         }
-        DUE.answers("cell(0, 2)", 0, () -> x.cell(0, 2));
+        ReelLoom full = new ReelLoom();
+        full.weave(40, 40);
+        DUE.refuses("cut(40) of 40 rows", INDEX, () -> full.cut(40));
+        DUE.answers("cut(39) of 40 rows", 40, () -> full.cut(39));
+    }
+
+    private static void cellOfTheCloth() {
+        DUE.sentence(CELL, "A cell of the cloth.");
+        ReelLoom x = Looms.worked();
+        DUE.answers("cell(0, 0)", 100000, () -> x.cell(0, 0));
+        DUE.answers("cell(0, 4)", 100004, () -> x.cell(0, 4));
+        DUE.answers("cell(2, 4)", 300004, () -> x.cell(2, 4));
+        ReelLoom full = new ReelLoom();
+        full.weave(40, 40);
+        full.dye(39, 39, 0, 8);
+        DUE.answers("cell(39, 39)", 8, () -> full.cell(39, 39));
+        DUE.answers("cell(39, 38)", 0, () -> full.cell(39, 38));
+        DUE.answers("cell(38, 39)", 0, () -> full.cell(38, 39));
+        DUE.answers("cell(0, 0)", 0, () -> full.cell(0, 0));
+    }
+
+    private static void cellWithoutAClothOrCut() {
+        DUE.sentence(CELL, NO_CLOTH);
+        DUE.refuses("cell(0, 0) without a cloth", STATE, Looms::clothless, x -> x.cell(0, 0));
+        for (int column = 0; column < 5; column++) {
+            int asked = column;
+            DUE.refuses("cell(1, " + asked + ")", STATE, Looms::worked, x -> x.cell(CUT, asked));
+        }
+    }
+
+    private static void cellOfNoSuchRowOrColumn() {
+        DUE.sentence(CELL, NO_SUCH);
+        for (int row : NO_ROWS) {
+            DUE.refuses("cell(" + row + ", 0)", INDEX, Looms::worked, x -> x.cell(row, 0));
+        }
+        for (int column : NO_COLUMNS) {
+            DUE.refuses("cell(0, " + column + ")", INDEX, Looms::worked, x -> x.cell(0, column));
+            DUE.refuses("cell(2, " + column + ")", INDEX, Looms::worked, x -> x.cell(2, column));
+        }
+        DUE.refuses("cell(0, 0) of no rows", INDEX, () -> Looms.workedOn(0, 4), x -> x.cell(0, 0));
+        DUE.refuses("cell(0, 0) of no columns", INDEX, () -> Looms.workedOn(4, 0), x -> x.cell(0, 0));
+        ReelLoom full = new ReelLoom();
+        full.weave(40, 40);
+        DUE.refuses("cell(40, 0) of 40 x 40", INDEX, () -> full.cell(40, 0));
+        DUE.refuses("cell(0, 40) of 40 x 40", INDEX, () -> full.cell(0, 40));
+        DUE.refuses("cell(1, -1) of 40 x 40", INDEX, () -> full.cell(1, -1));
     }
 
     private static void dyed(int has, int how, int v, int due) {
         ReelLoom x = new ReelLoom();
-        x.weave(2, 2);
-        x.dye(1, 0, 0, has);
-        DUE.answers("dye(1, 0, " + how + ", " + v + ") of " + has, due, () -> x.dye(1, 0, how, v));
-        DUE.answers("cell behind it", due, () -> x.cell(1, 0));
-        DUE.answers("the cell beside it", 0, () -> x.cell(1, 1));
-        DUE.answers("the cell above it", 0, () -> x.cell(0, 0));
+        x.weave(1, 1);
+        x.dye(0, 0, 0, has);
+        DUE.answers("dye(0, 0, " + how + ", " + v + ") of " + has, due, () -> x.dye(0, 0, how, v));
+        DUE.answers("cell(0, 0) behind it", due, () -> x.cell(0, 0));
     }
 
-    private static void dyeCombines() {
-        int highest = Integer.MAX_VALUE;
-        int lowest = Integer.MIN_VALUE;
-        dyed(highest, 0, 1, lowest);
-        dyed(lowest, 1, 1, highest);
-        dyed(0, 1, lowest, lowest);
+    private static void dyeAlters() {
+        DUE.sentence(DYE, "A cell of the cloth is altered as alter() tells (all of how 0 .. 8, any v;");
+        dyed(10, 0, 3, 13);
+        dyed(10, 1, 3, 7);
+        dyed(10, 2, 3, 30);
+        dyed(10, 3, 3, 2);
+        dyed(10, 4, 3, 11);
+        dyed(10, 5, 3, 9);
+        dyed(10, 6, 3, 80);
+        dyed(10, 7, 3, 1);
+        dyed(10, 8, 3, 1);
+        dyed(-10, 7, 1, -5);
+        dyed(-10, 8, 1, 0x7FFFFFFB);
+        dyed(-1, 3, LOWEST, LOWEST);
+        dyed(LOWEST, 4, HIGHEST, -1);
+        dyed(LOWEST, 5, -1, HIGHEST);
+        dyed(1, 6, 31, LOWEST);
+        dyed(LOWEST, 7, 31, -1);
+        dyed(LOWEST, 8, 31, 1);
+    }
+
+    private static void dyeWrapsAsInts() {
+        DUE.sentence("Promise 9", "sums, differences and products wrap as ints");
+        dyed(HIGHEST, 0, 1, LOWEST);
+        dyed(HIGHEST - 1, 0, 1, HIGHEST);
+        dyed(LOWEST, 0, -1, HIGHEST);
+        dyed(HIGHEST, 0, HIGHEST, -2);
+        dyed(LOWEST, 0, LOWEST, 0);
+        dyed(LOWEST, 1, 1, HIGHEST);
+        dyed(HIGHEST, 1, -1, LOWEST);
+        dyed(0, 1, LOWEST, LOWEST);
+        dyed(-1, 1, LOWEST, HIGHEST);
+        dyed(65536, 2, 65536, 0);
         dyed(65536, 2, 65537, 65536);
-        dyed(lowest, 2, -1, lowest);
-        dyed(0x0FF0, 3, 0xFF, 0xF0);
-        dyed(0x0FF0, 4, 0xFF, 0xFFF);
-        dyed(0x0FF0, 5, 0xFF, 0xF0F);
-        dyed(1, 6, 31, lowest);
-        dyed(1, 6, 32, 1);
-        dyed(1, 6, -1, lowest);
-        dyed(lowest, 7, 31, -1);
-        dyed(-8, 7, 33, -4);
-        dyed(lowest, 8, 31, 1);
-        dyed(-1, 8, 0, -1);
-        dyed(-1, 8, 33, highest);
+        dyed(32768, 2, 65536, LOWEST);
+        dyed(LOWEST, 2, -1, LOWEST);
+        dyed(HIGHEST, 2, HIGHEST, 1);
+        dyed(HIGHEST, 2, 2, -2);
     }
 
-    private static void dyeRefuses() {
-        ReelLoom x = new ReelLoom();
-        for (int how : new int[] {-1, 9, Integer.MIN_VALUE, Integer.MAX_VALUE}) {
-            DUE.refuses("dye, how " + how + ", without a cloth", ARGUMENT, () -> x.dye(-1, -1, how, 0));
+    private static void dyeByTheLowestFiveBits() {
+        DUE.sentence("Promise 9", "up and down by the lowest five bits of v");
+        for (int v : new int[] {0, 32, -32, 64, LOWEST}) {
+            dyed(-6, 6, v, -6);
+            dyed(-6, 7, v, -6);
+            dyed(-6, 8, v, -6);
         }
-        DUE.refuses("dye without a cloth", STATE, () -> x.dye(-1, -1, 0, 0));
-        x.weave(2, 3);
-        x.cut(1);
+        for (int v : new int[] {1, 33, -31, LOWEST + 1}) {
+            dyed(-6, 6, v, -12);
+            dyed(-6, 7, v, -3);
+            dyed(-6, 8, v, 0x7FFFFFFD);
+        }
+        for (int v : new int[] {31, -1, 63, HIGHEST}) {
+            dyed(-5, 6, v, LOWEST);
+            dyed(-5, 7, v, -1);
+            dyed(-5, 8, v, 1);
+        }
+    }
+
+    private static void dyePutsAnInt() {
+        DUE.sentence(DYE, "what is put into it is an int): what it has then.");
+        for (int v : new int[] {0, 1, -1, 65535, 65536, 800001, -800001, LOWEST, HIGHEST}) {
+            dyed(0, 0, v, v);
+            dyed(0, 4, v, v);
+            dyed(0, 5, v, v);
+            dyed(1, 2, v, v);
+            dyed(-1, 3, v, v);
+        }
+    }
+
+    private static void dyeOfOneCell() {
+        DUE.sentence(DYE, "A cell of the cloth is altered as alter() tells");
+        for (int row : new int[] {0, 1, 39}) {
+            for (int column : new int[] {0, 1, 39}) {
+                ReelLoom x = new ReelLoom();
+                x.weave(40, 40);
+                DUE.answers("dye(" + row + ", " + column + ", 0, 5)", 5, () -> x.dye(row, column, 0, 5));
+                for (int r : new int[] {0, 1, 2, 38, 39}) {
+                    for (int c : new int[] {0, 1, 2, 38, 39}) {
+                        int due = r == row && c == column ? 5 : 0;
+                        DUE.answers("cell(" + r + ", " + c + ") behind it", due, () -> x.cell(r, c));
+                    }
+                }
+            }
+        }
+    }
+
+    private static void dyeOfAnotherHow() {
+        DUE.sentence(DYE, "IllegalArgumentException: another how.");
+        for (int how : new int[] {-1, 9, LOWEST, HIGHEST}) {
+            DUE.refuses("dye(0, 0, " + how + ", 1)", ARGUMENT, Looms::worked, x -> x.dye(0, 0, how, 1));
+            DUE.refuses("dye(2, 4, " + how + ", 0)", ARGUMENT, Looms::worked, x -> x.dye(2, 4, how, 0));
+        }
+    }
+
+    private static void dyeWithoutAClothOrCut() {
+        DUE.sentence(CELL, NO_CLOTH);
+        for (int h = 0; h < 9; h++) {
+            int how = h;
+            DUE.refuses("dye(0, 0, " + how + ", 1) without a cloth", STATE, Looms::clothless, x -> x.dye(0, 0, how, 1));
+            DUE.refuses("dye(1, 0, " + how + ", 1)", STATE, Looms::worked, x -> x.dye(CUT, 0, how, 1));
+        }
+    }
+
+    private static void dyeOfNoSuchRowOrColumn() {
+        DUE.sentence(CELL, NO_SUCH);
         for (int row : NO_ROWS) {
-            DUE.refuses("dye at row " + row, INDEX, () -> x.dye(row, 0, 8, 0));
-            DUE.refuses("a wrong how at row " + row, ARGUMENT, () -> x.dye(row, 0, 9, 0));
+            DUE.refuses("dye(" + row + ", 0, 0, 1)", INDEX, Looms::worked, x -> x.dye(row, 0, 0, 1));
         }
-        for (int column : new int[] {-1, 3, 40, Integer.MIN_VALUE, Integer.MAX_VALUE}) {
-            DUE.refuses("dye at column " + column, INDEX, () -> x.dye(0, column, 0, 1));
-            DUE.refuses("cut comes first", STATE, () -> x.dye(1, column, 0, 1));
-            DUE.refuses("a wrong how comes ahead of cut", ARGUMENT, () -> x.dye(1, column, 9, 1));
+        for (int column : NO_COLUMNS) {
+            DUE.refuses("dye(0, " + column + ", 8, 1)", INDEX, Looms::worked, x -> x.dye(0, column, 8, 1));
+            DUE.refuses("dye(2, " + column + ", 8, 1)", INDEX, Looms::worked, x -> x.dye(2, column, 8, 1));
         }
+        DUE.refuses("dye(0, 0, 0, 1) of no rows", INDEX, () -> Looms.workedOn(0, 4), x -> x.dye(0, 0, 0, 1));
+        DUE.refuses("dye(0, 0, 0, 1) of no columns", INDEX, () -> Looms.workedOn(4, 0), x -> x.dye(0, 0, 0, 1));
+        ReelLoom full = new ReelLoom();
+        full.weave(40, 40);
+        DUE.refuses("dye(40, 0, 0, 1) of 40 x 40", INDEX, () -> full.dye(40, 0, 0, 1));
+        DUE.refuses("dye(0, 40, 0, 1) of 40 x 40", INDEX, () -> full.dye(0, 40, 0, 1));
+        DUE.refuses("dye(1, -1, 0, 1) of 40 x 40", INDEX, () -> full.dye(1, -1, 0, 1));
+        DUE.answers("the cell ahead of row 1", 0, () -> full.cell(0, 39));
+        DUE.answers("the cell behind row 0", 0, () -> full.cell(1, 0));
     }
 
     private static void seamCounts() {
+        DUE.sentence(SEAM, "In how many columns two rows of the cloth have the same.");
         ReelLoom x = new ReelLoom();
-        x.weave(3, 3);
-        DUE.answers("seam of a new cloth", 3, () -> x.seam(0, 2));
-        x.dye(0, 0, 0, 65536);
-        x.dye(2, 2, 0, -1);
+        x.weave(3, 4);
+        int[][] colours = {{1, 2, 3, 4}, {1, 5, 3, 2}, {65537, HIGHEST, LOWEST, 4}};
+        for (int row = 0; row < 3; row++) {
+            for (int column = 0; column < 4; column++) {
+                x.dye(row, column, 0, colours[row][column]);
+            }
+        }
+        DUE.answers("seam(0, 1)", 2, () -> x.seam(0, 1));
+        DUE.answers("seam(1, 0)", 2, () -> x.seam(1, 0));
         DUE.answers("seam(0, 2)", 1, () -> x.seam(0, 2));
         DUE.answers("seam(2, 0)", 1, () -> x.seam(2, 0));
-        DUE.answers("seam(0, 1)", 2, () -> x.seam(0, 1));
-        x.dye(1, 0, 0, 65536);
-        DUE.answers("seam(0, 1) of like rows", 3, () -> x.seam(0, 1));
-        DUE.answers("seam(2, 2)", 3, () -> x.seam(2, 2));
-        x.weave(2, 0);
-        DUE.answers("seam without columns", 0, () -> x.seam(0, 1));
-    }
-
-    private static void seamRefuses() {
-        ReelLoom x = new ReelLoom();
-        DUE.refuses("seam without a cloth", STATE, () -> x.seam(-1, -1));
-        x.weave(2, 3);
-        for (int row : NO_ROWS) {
-            DUE.refuses("seam(" + row + ", 0)", INDEX, () -> x.seam(row, 0));
-            DUE.refuses("seam(0, " + row + ")", INDEX, () -> x.seam(0, row));
-        }
+        DUE.answers("seam(1, 2)", 0, () -> x.seam(1, 2));
         x.cut(1);
-        DUE.refuses("seam(1, 0)", STATE, () -> x.seam(1, 0));
-        DUE.refuses("seam(0, 1)", STATE, () -> x.seam(0, 1));
-        DUE.refuses("seam(1, 1)", STATE, () -> x.seam(1, 1));
-        DUE.refuses("the first row is cut, the other is none", STATE, () -> x.seam(1, 2));
-        DUE.refuses("the first row is none, the other is cut", INDEX, () -> x.seam(-1, 1));
+        DUE.answers("seam(0, 2) beside a row that is CUT", 1, () -> x.seam(0, 2));
+        x.dye(0, 0, 0, 65536);
+        DUE.answers("seam(0, 2), the first cells alike", 2, () -> x.seam(0, 2));
+        x.dye(0, 3, 0, 1);
+        DUE.answers("seam(0, 2), the last cells unlike", 1, () -> x.seam(0, 2));
     }
 
-    private static void sumWeighsTheCells() {
+    private static void seamOfARowWithItself() {
+        DUE.sentence(SEAM, "In how many columns two rows of the cloth have the same.");
+        ReelLoom x = Looms.worked();
+        DUE.answers("seam(0, 0)", 5, () -> x.seam(0, 0));
+        DUE.answers("seam(2, 2)", 5, () -> x.seam(2, 2));
+    }
+
+    private static void seamOfNoColumnsAndOfAll() {
+        DUE.sentence(SEAM, "In how many columns two rows of the cloth have the same.");
+        for (int columns : new int[] {0, 1, 39, 40}) {
+            ReelLoom x = new ReelLoom();
+            x.weave(40, columns);
+            DUE.answers("seam(0, 39) of " + columns, columns, () -> x.seam(0, 39));
+            DUE.answers("seam(39, 0) of " + columns, columns, () -> x.seam(39, 0));
+            if (columns > 0) {
+                x.dye(39, columns - 1, 0, 1);
+                DUE.answers("seam(0, 39), the last column unlike", columns - 1, () -> x.seam(0, 39));
+                x.dye(38, 0, 0, 1);
+                DUE.answers("seam(0, 38), the first column unlike", columns - 1, () -> x.seam(0, 38));
+            }
+        }
+    }
+
+    private static void seamWithoutAClothOrCut() {
+        DUE.sentence(SEAM, "IllegalStateException: there is no cloth, or one of both is CUT");
+        DUE.refuses("seam(0, 0) without a cloth", STATE, Looms::clothless, x -> x.seam(0, 0));
+        DUE.refuses("seam(-1, 40) without a cloth", STATE, Looms::clothless, x -> x.seam(-1, 40));
+        DUE.refuses("seam(1, 0)", STATE, Looms::worked, x -> x.seam(CUT, 0));
+        DUE.refuses("seam(0, 1)", STATE, Looms::worked, x -> x.seam(0, CUT));
+        DUE.refuses("seam(1, 1)", STATE, Looms::worked, x -> x.seam(CUT, CUT));
         ReelLoom x = new ReelLoom();
-        int[] values = {7, -100, 20, 1, -3};
-        int[] dues = {7, 7 - 200, 7 - 200 + 60, 7 - 200 + 60 + 4, 7 - 200 + 60 + 4 - 15};
+        x.weave(2, 0);
+        x.cut(0);
+        DUE.refuses("seam(0, 1) of no columns", STATE, () -> x.seam(0, 1));
+        DUE.refuses("seam(1, 0) of no columns", STATE, () -> x.seam(1, 0));
+    }
+
+    private static void seamOfNoSuchRow() {
+        DUE.sentence(SEAM, NO_ROW);
+        for (int row : NO_ROWS) {
+            DUE.refuses("seam(" + row + ", 0)", INDEX, Looms::worked, x -> x.seam(row, 0));
+            DUE.refuses("seam(0, " + row + ")", INDEX, Looms::worked, x -> x.seam(0, row));
+            DUE.refuses("seam(" + row + ", " + row + ")", INDEX, Looms::worked, x -> x.seam(row, row));
+        }
+        DUE.refuses("seam(0, 0) of no rows", INDEX, () -> Looms.workedOn(0, 4), x -> x.seam(0, 0));
+        ReelLoom full = new ReelLoom();
+        full.weave(40, 40);
+        DUE.refuses("seam(40, 0) of 40 rows", INDEX, () -> full.seam(40, 0));
+        DUE.refuses("seam(0, 40) of 40 rows", INDEX, () -> full.seam(0, 40));
+    }
+
+    private static void sumOfTheCells() {
+        DUE.sentence(SUM, "of (sort + 1) times their cells, in place order; what 0: that");
+        int[] ends = {65535, -32768, -800000, 1, -128};
+        int[] dues = {65535, -65536, -2400000, 4, -640};
         for (int k = 0; k < 5; k++) {
             int sort = k;
-            x.mount(sort, 64);
-            x.set(sort, 63 - sort, values[sort]);
-            DUE.answers("sum(0) with sorts up to " + sort, dues[sort], () -> x.sum(0));
+            for (int n : new int[] {1, 2, 63, 64}) {
+                ReelLoom x = new ReelLoom();
+                x.mount(sort, n);
+                DUE.answers("sum(0), " + n + " cells of 0", 0, () -> x.sum(0));
+                x.set(sort, n - 1, ends[sort]);
+                DUE.answers("sum(0), the last of " + n + " cells", dues[sort], () -> x.sum(0));
+                x.set(sort, 0, 1);
+                int first = n == 1 ? 0 : dues[sort];
+                DUE.answers("sum(0), the first one too", first + sort + 1, () -> x.sum(0));
+                x.copy(sort);
+                DUE.answers("sum(0) beside a spare", first + sort + 1, () -> x.sum(0));
+                x.mount(sort, 0);
+                DUE.answers("sum(0) of an empty reel", 0, () -> x.sum(0));
+            }
         }
-        x.set(0, 0, 1000);
-        DUE.answers("sum(0) of two cells", 1000 + dues[4], () -> x.sum(0));
-        x.copy(0);
-        DUE.answers("sum(0) leaves the spare out", 1000 + dues[4], () -> x.sum(0));
-        x.off(0);
-        DUE.answers("sum(0) leaves out what is off", dues[4] - 7, () -> x.sum(0));
-        x.swap(0);
-        x.mount(2, 64);
-        for (int i = 0; i < 64; i++) {
-            x.set(2, i, 800000);
-        }
-        DUE.answers("sum(0) of full pulls", 64 * 3 * 800000 + 1007 - 200 + 4 - 15, () -> x.sum(0));
-        x.mount(2, 1);
-        DUE.answers("sum(0) after a short mount", 1007 - 200 + 4 - 15, () -> x.sum(0));
     }
 
-    private static void sumCounts() {
+    private static void sumOfFullReels() {
+        DUE.sentence(SUM, "The sum over all five sorts");
+        int[] most = {65535, 32767, 800000, 1, 127};
+        int[] least = {0, -32768, -800000, 0, -128};
         ReelLoom x = new ReelLoom();
-        x.mount(1, 0);
-        x.mount(4, 2);
-        DUE.answers("sum(1)", 3, () -> x.sum(1));
-        x.copy(4);
-        x.off(4);
-        DUE.answers("sum(1) counts no spare", 4, () -> x.sum(1));
-        x.weave(5, 4);
-        x.cut(0);
-        x.cut(4);
-        DUE.answers("sum(2)", 5, () -> x.sum(2));
-        DUE.answers("sum(3)", 4, () -> x.sum(3));
-        DUE.answers("sum(4)", 2, () -> x.sum(4));
+        ReelLoom y = new ReelLoom();
+        for (int sort = 0; sort < 5; sort++) {
+            x.mount(sort, 64);
+            y.mount(sort, 64);
+            for (int i = 0; i < 64; i++) {
+                x.set(sort, i, most[sort]);
+                y.set(sort, i, least[sort]);
+            }
+        }
+        DUE.answers("sum(0) at its most", 64 * (65535 + 2 * 32767 + 3 * 800000 + 4 + 5 * 127), () -> x.sum(0));
+        DUE.answers("sum(0) at its least", -64 * (2 * 32768 + 3 * 800000 + 5 * 128), () -> y.sum(0));
+        DUE.answers("sum(1)", 0, () -> x.sum(1));
+    }
+
+    private static void sumOfReelsThatAreOff() {
+        DUE.sentence(SUM, "1: how many of these five are OFF");
+        ReelLoom x = new ReelLoom();
+        for (int sort = 0; sort < 5; sort++) {
+            int before = 5 - sort;
+            DUE.answers("sum(1) ahead of mount(" + sort + ", 0)", before, () -> x.sum(1));
+            x.mount(sort, 0);
+        }
+        DUE.answers("sum(1) of empty reels", 0, () -> x.sum(1));
+        for (int sort = 0; sort < 5; sort++) {
+            int behind = sort + 1;
+            x.copy(sort);
+            x.off(sort);
+            DUE.answers("sum(1) behind off(" + sort + ")", behind, () -> x.sum(1));
+        }
+        DUE.sentence(SUM, "of the reels that work and are not OFF");
+        ReelLoom y = Looms.reel(Looms.WEAR, 2, 7);
+        y.swap(Looms.WEAR);
+        DUE.answers("sum(0) of a spare", 0, () -> y.sum(0));
+        y.swap(Looms.WEAR);
+        DUE.answers("sum(0) of one that works", 70, () -> y.sum(0));
+        y.off(Looms.WEAR);
+        DUE.answers("sum(0) of one that is OFF", 0, () -> y.sum(0));
+    }
+
+    private static void sumOfRowsAndColumns() {
+        DUE.sentence(SUM, "2: rows of the cloth, 3: its columns");
+        ReelLoom x = new ReelLoom();
+        for (int[] size : new int[][] {{0, 0}, {0, 40}, {40, 0}, {1, 2}, {39, 40}, {40, 39}, {40, 40}}) {
+            x.weave(size[0], size[1]);
+            clothIs("weave(" + size[0] + ", " + size[1] + ")", x, size[0], size[1], 0);
+        }
+    }
+
+    private static void sumOfCutRows() {
+        DUE.sentence(SUM, "4: its rows that are CUT");
+        ReelLoom x = new ReelLoom();
+        x.weave(40, 1);
+        for (int row = 0; row < 40; row++) {
+            int cut = row + 1;
+            x.cut(row);
+            DUE.answers("sum(4) behind cut(" + row + ")", cut, () -> x.sum(4));
+        }
+        DUE.answers("sum(2)", 40, () -> x.sum(2));
+        x.weave(40, 1);
+        DUE.answers("sum(4) of a new cloth", 0, () -> x.sum(4));
+    }
+
+    private static void sumWithoutACloth() {
+        DUE.sentence(SUM, "(2 to 4: -1 without a cloth)");
+        ReelLoom x = Looms.clothless();
+        clothIs("no cloth", x, -1, -1, -1);
+        DUE.refuses("weave(-1, 0)", ARGUMENT, () -> x.weave(-1, 0));
+        clothIs("no cloth still", x, -1, -1, -1);
         x.weave(0, 0);
-        for (int what = 2; what < 5; what++) {
-            int asked = what;
-            DUE.answers("sum(" + what + ") of an empty cloth", 0, () -> x.sum(asked));
-        }
-        for (int what : new int[] {-1, 5, Integer.MIN_VALUE, Integer.MAX_VALUE}) {
-            DUE.refuses("sum(" + what + ")", ARGUMENT, () -> x.sum(what));
-        }
+        clothIs("a cloth of nothing", x, 0, 0, 0);
     }
 
-    private static ReelLoom woven() {
-        ReelLoom x = lifted(3);
-        x.mount(WEAR, 2);
-        x.pass(0, 5);
-        x.cut(1);
-        return x;
-    }
-
-    private static void refusedCallsChangeNothing() {
-        String before = Glance.of(woven());
-        ReelLoom x = woven();
-        DUE.refuses("weave(41, 1)", UNSUPPORTED, () -> x.weave(41, 1));
-        DUE.refuses("weave(1, -1)", ARGUMENT, () -> x.weave(1, -1));
-        DUE.refuses("pass(0, 65536)", ARGUMENT, () -> x.pass(0, 65536));
-        DUE.refuses("pass(2, 1)", INDEX, () -> x.pass(2, 1));
-        DUE.refuses("stop(3)", ARGUMENT, () -> x.stop(3));
-        DUE.refuses("cut(1)", STATE, () -> x.cut(1));
-        DUE.refuses("cut(2)", INDEX, () -> x.cut(2));
-        DUE.refuses("cell(1, 0)", STATE, () -> x.cell(1, 0));
-        DUE.refuses("dye(0, 0, 9, 1)", ARGUMENT, () -> x.dye(0, 0, 9, 1));
-        DUE.refuses("dye(1, 0, 0, 1)", STATE, () -> x.dye(1, 0, 0, 1));
-        DUE.refuses("dye(0, 3, 0, 1)", INDEX, () -> x.dye(0, 3, 0, 1));
-        DUE.refuses("seam(0, 1)", STATE, () -> x.seam(0, 1));
-        DUE.refuses("sum(5)", ARGUMENT, () -> x.sum(5));
-        DUE.compare("after refused calls", before, Glance.of(x));
+    private static void sumOfAnotherWhat() {
+        DUE.sentence(SUM, "IllegalArgumentException: another what.");
+        for (int what : new int[] {-1, 5, LOWEST, HIGHEST}) {
+            DUE.refuses("sum(" + what + ")", ARGUMENT, Looms::worked, x -> x.sum(what));
+            DUE.refuses("sum(" + what + ") of a new object", ARGUMENT, ReelLoom::new, x -> x.sum(what));
+        }
+        ReelLoom x = Looms.worked();
+        DUE.answers("sum(1)", 0, () -> x.sum(1));
+        DUE.answers("sum(4)", 1, () -> x.sum(4));
     }
 
     private ClothTest() {

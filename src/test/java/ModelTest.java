@@ -4,15 +4,13 @@ public final class ModelTest {
     private static final int CALLS = 512;
     private static final Due DUE = new Due();
 
-    private final ReelLoom loom = new ReelLoom();
-    private final Model model = new Model();
-    private final int run;
+    private final Pair pair;
     /** Runs on small reels and cloths hit the same cells again; those on large ones, the far edges. */
     private final int reach;
     private long seed;
 
     private ModelTest(int run) {
-        this.run = run;
+        this.pair = new Pair(DUE, "run " + run);
         this.seed = run * 7919L + 17;
         this.reach = new int[] {2, 4, 8, 40}[run % 4];
     }
@@ -38,15 +36,15 @@ public final class ModelTest {
     }
 
     private int sort() {
-        return rarely(below(5), -1, 5, Integer.MIN_VALUE, Integer.MAX_VALUE);
+        return rarely(below(5), -1, 5, Looms.LOWEST, Looms.HIGHEST);
     }
 
     private int place() {
-        return rarely(below(reach + 1), -1, 63, 64, 40, Integer.MIN_VALUE, Integer.MAX_VALUE);
+        return rarely(below(reach + 1), -1, 63, 64, 40, Looms.LOWEST, Looms.HIGHEST);
     }
 
     private int how() {
-        return rarely(below(9), -1, 9, Integer.MIN_VALUE, Integer.MAX_VALUE);
+        return rarely(below(9), -1, 9, Looms.LOWEST, Looms.HIGHEST);
     }
 
     private int number() {
@@ -55,7 +53,7 @@ public final class ModelTest {
                 return below(9) - 4;
             case 1:
                 int[] ends = {127, 128, -128, 32767, 32768, -32768, 65535, 65536, 799999, 800000, 800001, -799999,
-                    -800000, -800001, Integer.MAX_VALUE, Integer.MIN_VALUE, Integer.MIN_VALUE + 1};
+                    -800000, -800001, Looms.HIGHEST, Looms.LOWEST, Looms.LOWEST + 1};
                 return ends[below(ends.length)];
             case 2:
                 return below(1600003) - 800001;
@@ -65,11 +63,11 @@ public final class ModelTest {
     }
 
     private int cells() {
-        return rarely(below(4) == 0 ? below(reach + 2) : reach, -1, 0, 64, 65, Integer.MIN_VALUE, Integer.MAX_VALUE);
+        return rarely(below(4) == 0 ? below(reach + 2) : reach, -1, 0, 64, 65, Looms.LOWEST, Looms.HIGHEST);
     }
 
     private int lines() {
-        return rarely(1 + below(reach), -1, 0, 40, 41, Integer.MIN_VALUE, Integer.MAX_VALUE);
+        return rarely(1 + below(reach), -1, 0, 40, 41, Looms.LOWEST, Looms.HIGHEST);
     }
 
     private void call(int call) {
@@ -78,70 +76,57 @@ public final class ModelTest {
             kind = call < 6 ? 0 : 60;
         }
         if (kind < 60) {
-            callReels(kind, call);
+            callReels(kind);
         } else {
-            callCloth(kind, call);
+            callCloth(kind);
         }
     }
 
-    private void due(String name, int call, String due, Due.Call made) {
-        DUE.compare("run " + run + ", call " + call + ", " + name, due, Due.outcome(made));
-    }
-
-    private void callReels(int kind, int call) {
+    private void callReels(int kind) {
         int sort = sort();
         int i = place();
         int v = number();
         if (kind < 6) {
-            int n = cells();
-            due("mount(" + sort + ", " + n + ")", call, model.mount(sort, n), () -> loom.mount(sort, n));
+            pair.mount(sort, cells());
         } else if (kind < 8) {
-            due("off(" + sort + ")", call, model.off(sort), () -> loom.off(sort));
+            pair.off(sort);
         } else if (kind < 12) {
-            due("swap(" + sort + ")", call, model.swap(sort), () -> loom.swap(sort));
+            pair.swap(sort);
         } else if (kind < 16) {
-            due("copy(" + sort + ")", call, model.copy(sort), () -> loom.copy(sort));
+            pair.copy(sort);
         } else if (kind < 20) {
-            boolean spare = below(2) == 0;
-            due("size(" + sort + ", " + spare + ")", call, model.size(sort, spare), () -> loom.size(sort, spare));
+            pair.size(sort, below(2) == 0);
         } else if (kind < 30) {
-            due("get(" + sort + ", " + i + ")", call, model.get(sort, i), () -> loom.get(sort, i));
+            pair.get(sort, i);
         } else if (kind < 42) {
-            due("set(" + sort + ", " + i + ", " + v + ")", call, model.set(sort, i, v), () -> loom.set(sort, i, v));
+            pair.set(sort, i, v);
         } else {
             int how = sort == 2 && below(2) == 0 ? below(2) : sort == 3 && below(2) == 0 ? 3 + below(3) : how();
-            due("alter(" + sort + ", " + i + ", " + how + ", " + v + ")", call,
-                    model.alter(sort, i, how, v), () -> loom.alter(sort, i, how, v));
+            pair.alter(sort, i, how, v);
         }
     }
 
-    private void callCloth(int kind, int call) {
+    private void callCloth(int kind) {
         int row = place();
         int column = place();
         int what = below(7) - 1;
         if (kind < 62) {
-            int rows = lines();
-            int columns = lines();
-            due("weave(" + rows + ", " + columns + ")", call,
-                    model.weave(rows, columns), () -> loom.weave(rows, columns));
+            pair.weave(lines(), lines());
         } else if (kind < 72) {
-            int colour = rarely(below(65536), -1, 65535, 65536, Integer.MIN_VALUE, Integer.MAX_VALUE);
-            due("pass(" + row + ", " + colour + ")", call, model.pass(row, colour), () -> loom.pass(row, colour));
+            int colour = rarely(below(65536), -1, 65535, 65536, Looms.LOWEST, Looms.HIGHEST);
+            pair.pass(row, colour);
         } else if (kind < 78) {
-            due("stop(" + what + ")", call, model.stop(what), () -> loom.stop(what));
+            pair.stop(what);
         } else if (kind < 79) {
-            due("cut(" + row + ")", call, model.cut(row), () -> loom.cut(row));
+            pair.cut(row);
         } else if (kind < 85) {
-            due("cell(" + row + ", " + column + ")", call, model.cell(row, column), () -> loom.cell(row, column));
+            pair.cell(row, column);
         } else if (kind < 91) {
-            int how = how();
-            int v = number();
-            due("dye(" + row + ", " + column + ", " + how + ", " + v + ")", call,
-                    model.dye(row, column, how, v), () -> loom.dye(row, column, how, v));
+            pair.dye(row, column, how(), number());
         } else if (kind < 94) {
-            due("seam(" + row + ", " + column + ")", call, model.seam(row, column), () -> loom.seam(row, column));
+            pair.seam(row, column);
         } else {
-            due("sum(" + what + ")", call, model.sum(what), () -> loom.sum(what));
+            pair.sum(what);
         }
     }
 }

@@ -1,377 +1,431 @@
-/** Promises 1 to 9: a new object, and the reels. */
+/** Promises 1 to 8: a new object, and the reels. */
 public final class ReelTest {
     private static final Due DUE = new Due();
-    private static final Class<IllegalArgumentException> ARGUMENT = IllegalArgumentException.class;
-    private static final Class<IllegalStateException> STATE = IllegalStateException.class;
-    private static final Class<IndexOutOfBoundsException> INDEX = IndexOutOfBoundsException.class;
-    private static final int[] NO_SORTS = {-1, 5, 6, 64, Integer.MIN_VALUE, Integer.MAX_VALUE};
-    private static final int PULLS = 2;
-    private static final int LIFTS = 3;
+    private static final Class<IllegalArgumentException> ARGUMENT = Looms.ARGUMENT;
+    private static final Class<IllegalStateException> STATE = Looms.STATE;
+    private static final Class<IndexOutOfBoundsException> INDEX = Looms.INDEX;
+    private static final int LOWEST = Looms.LOWEST;
+    private static final int HIGHEST = Looms.HIGHEST;
+
+    private static final String MOUNT = "Promise 2";
+    private static final String OFF = "Promise 3";
+    private static final String SWAP = "Promise 4";
+    private static final String COPY = "Promise 5";
+    private static final String SIZE = "Promise 6";
+    private static final String GET = "Promise 7";
+    private static final String SET = "Promise 8";
 
     public static void main(String[] args) {
         newObject();
-        mountAnswersTheLengthBefore();
-        mountMakesANewReelOfNoughts();
-        mountRefuses();
-        offTakesTheWorkingReelAlone();
-        swapChangesPlaces();
-        copyMakesAReelOfItsOwn();
-        sizeTellsBoth();
-        getAndSetRefuse();
-        setFitsTheNumber();
-        alterCombines();
-        alterOfPulls();
-        alterOfLifts();
-        alterRefuses();
-        noSuchSortComesFirst();
-        refusedCallsChangeNothing();
+        for (int sort = 0; sort < 5; sort++) {
+            mountMakesAReelOfNoughts(sort);
+            mountTakesTheOldReelAway(sort);
+            mountAnswersTheLengthBefore(sort);
+            mountOfTooFewOrTooManyCells(sort);
+            offTakesTheReelAway(sort);
+            offAnswersTheLength(sort);
+            offOfNone(sort);
+            swapWithReelsThatAreOff(sort);
+            swapOfFullReels(sort);
+            swapOfUnlikeReels(sort);
+            swapAnswersTheLengthNow(sort);
+            copyIsLikeTheOneThatWorks(sort);
+            copyIsAReelOfItsOwn(sort);
+            copyOverAnotherSpare(sort);
+            copyAnswersTheLength(sort);
+            copyOfNone(sort);
+            sizeOfBoth(sort);
+            sizeOfNone(sort);
+            getAtEachEdge(sort);
+            getOfNone(sort);
+            getOfNoSuchCell(sort);
+            setAnswersWhatTheCellHas(sort);
+            setOfNone(sort);
+            setOfNoSuchCell(sort);
+        }
+        noSuchSort();
         DUE.end("ReelTest");
     }
 
     private static void newObject() {
         ReelLoom x = new ReelLoom();
+        DUE.sentence("Promise 1", "All reels are off");
+        DUE.answers("sum(1)", 5, () -> x.sum(1));
+        DUE.answers("sum(0)", 0, () -> x.sum(0));
         for (int k = 0; k < 5; k++) {
             int sort = k;
-            DUE.answers("new: size(" + sort + ", false)", -1, () -> x.size(sort, false));
-            DUE.answers("new: size(" + sort + ", true)", -1, () -> x.size(sort, true));
-            DUE.refuses("new: get(" + sort + ", 0)", STATE, () -> x.get(sort, 0));
+            DUE.refuses("off(" + sort + ")", STATE, ReelLoom::new, y -> y.off(sort));
+            DUE.refuses("copy(" + sort + ")", STATE, ReelLoom::new, y -> y.copy(sort));
+            DUE.answers("size(" + sort + ", true)", -1, () -> x.size(sort, true));
         }
-        DUE.answers("new: sum(0)", 0, () -> x.sum(0));
-        DUE.answers("new: sum(1)", 5, () -> x.sum(1));
-        DUE.answers("new: sum(2)", -1, () -> x.sum(2));
-        DUE.answers("new: sum(3)", -1, () -> x.sum(3));
-        DUE.answers("new: sum(4)", -1, () -> x.sum(4));
-        DUE.refuses("new: cell(0, 0)", STATE, () -> x.cell(0, 0));
-        for (int what = 0; what < 3; what++) {
-            int asked = what;
-            DUE.answers("new: stop(" + what + ")", 0, () -> x.stop(asked));
-        }
+        DUE.sentence("Promise 1", "there is no cloth");
+        DUE.refuses("cell(0, 0)", STATE, ReelLoom::new, y -> y.cell(0, 0));
+        DUE.refuses("cut(0)", STATE, ReelLoom::new, y -> y.cut(0));
+        DUE.refuses("pass(0, 0)", STATE, ReelLoom::new, y -> y.pass(0, 0));
+        DUE.sentence("Promise 1", "no pass was made.");
+        DUE.answers("stop(0)", 0, () -> x.stop(0));
+        DUE.answers("stop(1)", 0, () -> x.stop(1));
+        DUE.answers("stop(2)", 0, () -> x.stop(2));
     }
 
-    private static void mountAnswersTheLengthBefore() {
-        for (int k = 0; k < 5; k++) {
-            int sort = k;
+    private static void cells(String when, ReelLoom x, int sort, int cells, int due) {
+        DUE.answers(when + ": size(" + sort + ", false)", cells, () -> x.size(sort, false));
+        for (int k = 0; k < cells; k++) {
+            int i = k;
+            DUE.answers(when + ": get(" + sort + ", " + i + ")", due, () -> x.get(sort, i));
+        }
+        DUE.refuses(when + ": get(" + sort + ", " + cells + ")", INDEX, () -> x.get(sort, cells));
+    }
+
+    private static void mountMakesAReelOfNoughts(int sort) {
+        DUE.sentence(MOUNT, "A new reel of n cells, all 0, works from now on");
+        for (int n : new int[] {0, 1, 63, 64}) {
             ReelLoom x = new ReelLoom();
-            DUE.answers("mount on none", -1, () -> x.mount(sort, 64));
-            DUE.answers("mount on 64", 64, () -> x.mount(sort, 0));
-            DUE.answers("mount on 0", 0, () -> x.mount(sort, 3));
-            DUE.answers("mount on 3", 3, () -> x.mount(sort, 1));
-            DUE.answers("size after mount", 1, () -> x.size(sort, false));
-            DUE.answers("spare after mount", -1, () -> x.size(sort, true));
-            DUE.answers("others after mount", 4, () -> x.sum(1));
+            x.mount(sort, n);
+            cells("mount of " + n, x, sort, n, 0);
+            DUE.answers("the spare beside " + n, -1, () -> x.size(sort, true));
+            DUE.answers("reels that are off beside " + n, 4, () -> x.sum(1));
         }
     }
 
-    private static void mountMakesANewReelOfNoughts() {
-        for (int k = 0; k < 5; k++) {
-            int sort = k;
-            ReelLoom x = new ReelLoom();
-            x.mount(sort, 64);
-            DUE.answers("first cell", 0, () -> x.get(sort, 0));
-            DUE.answers("last cell", 0, () -> x.get(sort, 63));
-            x.set(sort, 0, 1);
-            x.set(sort, 63, 1);
-            DUE.answers("shorter", 64, () -> x.mount(sort, 1));
-            DUE.answers("first cell anew", 0, () -> x.get(sort, 0));
-            DUE.refuses("last cell gone", INDEX, () -> x.get(sort, 63));
-            DUE.answers("longer", 1, () -> x.mount(sort, 64));
-            DUE.answers("last cell anew", 0, () -> x.get(sort, 63));
-            x.set(sort, 5, 1);
-            x.off(sort);
-            x.mount(sort, 64);
-            DUE.answers("anew after off", 0, () -> x.get(sort, 5));
-        }
-    }
-
-    private static void mountRefuses() {
-        ReelLoom x = new ReelLoom();
-        x.mount(1, 2);
-        x.set(1, 0, 9);
-        for (int n : new int[] {-1, 65, Integer.MIN_VALUE, Integer.MAX_VALUE}) {
-            DUE.refuses("mount(1, " + n + ")", ARGUMENT, () -> x.mount(1, n));
-        }
-        DUE.answers("the reel stays", 2, () -> x.size(1, false));
-        DUE.answers("its cell stays", 9, () -> x.get(1, 0));
-    }
-
-    private static void offTakesTheWorkingReelAlone() {
-        for (int k = 0; k < 5; k++) {
-            int sort = k;
-            ReelLoom x = new ReelLoom();
-            DUE.refuses("off of none", STATE, () -> x.off(sort));
-            x.mount(sort, 3);
-            x.set(sort, 2, 1);
+    private static void mountTakesTheOldReelAway(int sort) {
+        DUE.sentence(MOUNT, "(the one that worked is gone)");
+        for (int n : new int[] {0, 1, 63, 64}) {
+            ReelLoom x = Looms.reel(sort, 63, 1);
             x.copy(sort);
-            DUE.answers("off", 3, () -> x.off(sort));
-            DUE.answers("off: size", -1, () -> x.size(sort, false));
-            DUE.answers("off: spare stays", 3, () -> x.size(sort, true));
-            DUE.refuses("off twice", STATE, () -> x.off(sort));
-            DUE.answers("the spare works", 3, () -> x.swap(sort));
-            DUE.answers("the spare's cell", 1, () -> x.get(sort, 2));
-            x.mount(sort, 0);
-            DUE.answers("off of an empty reel", 0, () -> x.off(sort));
-        }
-    }
-
-    private static void swapChangesPlaces() {
-        for (int k = 0; k < 5; k++) {
-            int sort = k;
-            ReelLoom x = new ReelLoom();
-            DUE.answers("swap of none with none", -1, () -> x.swap(sort));
-            x.mount(sort, 2);
-            x.set(sort, 0, 1);
-            DUE.answers("swap with none", -1, () -> x.swap(sort));
-            DUE.answers("swapped: works", -1, () -> x.size(sort, false));
-            DUE.answers("swapped: spare", 2, () -> x.size(sort, true));
-            DUE.answers("mount beside the spare", -1, () -> x.mount(sort, 64));
-            x.set(sort, 63, 1);
-            DUE.answers("swap back", 2, () -> x.swap(sort));
-            DUE.answers("first reel's cell 0", 1, () -> x.get(sort, 0));
-            DUE.answers("first reel's cell 1", 0, () -> x.get(sort, 1));
-            DUE.answers("swap again", 64, () -> x.swap(sort));
-            DUE.answers("other reel's cell 0", 0, () -> x.get(sort, 0));
-            DUE.answers("other reel's cell 63", 1, () -> x.get(sort, 63));
-            DUE.answers("other sorts", 4, () -> x.sum(1));
-        }
-    }
-
-    private static void copyMakesAReelOfItsOwn() {
-        for (int k = 0; k < 5; k++) {
-            int sort = k;
-            ReelLoom x = new ReelLoom();
-            DUE.refuses("copy of none", STATE, () -> x.copy(sort));
+            x.mount(sort, n);
+            cells("63 cells of 1, then mount of " + n, x, sort, n, 0);
             x.mount(sort, 64);
-            x.set(sort, 0, 1);
-            x.set(sort, 63, 1);
-            DUE.answers("copy", 64, () -> x.copy(sort));
-            x.set(sort, 0, 0);
+            cells("64 cells behind " + n, x, sort, 64, 0);
             x.swap(sort);
-            DUE.answers("the copy's cell 0 stays", 1, () -> x.get(sort, 0));
-            DUE.answers("the copy's cell 63", 1, () -> x.get(sort, 63));
-            x.set(sort, 63, 0);
+            cells("the spare stays behind " + n, x, sort, 63, 1);
+        }
+    }
+
+    private static void mountAnswersTheLengthBefore(int sort) {
+        DUE.sentence(MOUNT, "how many cells that had, -1 if it was OFF");
+        ReelLoom x = new ReelLoom();
+        DUE.answers("mount on none", -1, () -> x.mount(sort, 64));
+        DUE.answers("mount on 64", 64, () -> x.mount(sort, 63));
+        DUE.answers("mount on 63", 63, () -> x.mount(sort, 0));
+        DUE.answers("mount on 0", 0, () -> x.mount(sort, 1));
+        DUE.answers("mount on 1", 1, () -> x.mount(sort, 2));
+        x.off(sort);
+        DUE.answers("mount behind off", -1, () -> x.mount(sort, 3));
+        x.swap(sort);
+        DUE.answers("mount behind a swap with none", -1, () -> x.mount(sort, 4));
+        x.swap(sort);
+        DUE.answers("mount on the one that was spare", 3, () -> x.mount(sort, 4));
+    }
+
+    private static void mountOfTooFewOrTooManyCells(int sort) {
+        DUE.sentence(MOUNT, "n is not 0 .. 64");
+        for (int n : new int[] {-1, 65, -64, 128, LOWEST, HIGHEST}) {
+            String call = "mount(" + sort + ", " + n + ")";
+            DUE.refuses(call, ARGUMENT, Looms::worked, x -> x.mount(sort, n));
+            DUE.refuses(call + " on none", ARGUMENT, ReelLoom::new, x -> x.mount(sort, n));
+        }
+        for (int n : new int[] {0, 1, 63, 64}) {
+            ReelLoom x = new ReelLoom();
+            DUE.answers("mount(" + sort + ", " + n + ")", -1, () -> x.mount(sort, n));
+        }
+    }
+
+    private static void offTakesTheReelAway(int sort) {
+        DUE.sentence(OFF, "The reel that works is OFF from now on (it is gone)");
+        ReelLoom x = Looms.reel(sort, 64, 1);
+        x.copy(sort);
+        x.off(sort);
+        DUE.answers("size(" + sort + ", false)", -1, () -> x.size(sort, false));
+        DUE.answers("size(" + sort + ", true)", 64, () -> x.size(sort, true));
+        DUE.refuses("get(" + sort + ", 0)", STATE, () -> x.get(sort, 0));
+        DUE.answers("sum(0)", 0, () -> x.sum(0));
+        DUE.answers("sum(1)", 5, () -> x.sum(1));
+        x.mount(sort, 64);
+        cells("mounted anew", x, sort, 64, 0);
+        x.swap(sort);
+        cells("the spare", x, sort, 64, 1);
+    }
+
+    private static void offAnswersTheLength(int sort) {
+        DUE.sentence(OFF, "how many cells it had");
+        for (int n : new int[] {0, 1, 63, 64}) {
+            ReelLoom x = new ReelLoom();
+            x.mount(sort, n);
+            DUE.answers("off(" + sort + ") of " + n, n, () -> x.off(sort));
+        }
+    }
+
+    private static void offOfNone(int sort) {
+        DUE.sentence(OFF, "IllegalStateException: it is OFF.");
+        DUE.refuses("off(" + sort + ") of a new object", STATE, ReelLoom::new, x -> x.off(sort));
+        DUE.refuses("off(" + sort + ") again, beside a spare", STATE, () -> Looms.workedWithout(sort), x -> x.off(sort));
+        ReelLoom x = new ReelLoom();
+        x.mount(sort, 0);
+        x.swap(sort);
+        DUE.refuses("off(" + sort + ") behind a swap with none", STATE, () -> x.off(sort));
+        x.swap(sort);
+        DUE.answers("off(" + sort + ") of an empty reel", 0, () -> x.off(sort));
+    }
+
+    private static void swapWithReelsThatAreOff(int sort) {
+        DUE.sentence(SWAP, "The reel that works and the spare one change places (either may be OFF)");
+        ReelLoom x = new ReelLoom();
+        DUE.answers("both are off", -1, () -> x.swap(sort));
+        DUE.answers("both are off: works", -1, () -> x.size(sort, false));
+        DUE.answers("both are off: spare", -1, () -> x.size(sort, true));
+        x.mount(sort, 2);
+        x.set(sort, 1, 1);
+        DUE.answers("the spare is off", -1, () -> x.swap(sort));
+        DUE.answers("the spare was off: works", -1, () -> x.size(sort, false));
+        DUE.answers("the spare was off: spare", 2, () -> x.size(sort, true));
+        DUE.refuses("the spare was off: get", STATE, () -> x.get(sort, 1));
+        DUE.answers("the one that works is off", 2, () -> x.swap(sort));
+        DUE.answers("the one that works was off: works", 2, () -> x.size(sort, false));
+        DUE.answers("the one that works was off: spare", -1, () -> x.size(sort, true));
+        DUE.answers("the one that works was off: get(0)", 0, () -> x.get(sort, 0));
+        DUE.answers("the one that works was off: get(1)", 1, () -> x.get(sort, 1));
+        DUE.answers("the other sorts are off still", 4, () -> x.sum(1));
+    }
+
+    private static void swapOfFullReels(int sort) {
+        DUE.sentence(SWAP, "The reel that works and the spare one change places (either may be OFF)");
+        ReelLoom x = Looms.reel(sort, 64, 1);
+        x.swap(sort);
+        x.mount(sort, 64);
+        x.swap(sort);
+        cells("the first of two full ones", x, sort, 64, 1);
+        x.swap(sort);
+        cells("the other of two full ones", x, sort, 64, 0);
+        x.swap(sort);
+        cells("the first again", x, sort, 64, 1);
+    }
+
+    private static void swapOfUnlikeReels(int sort) {
+        DUE.sentence(SWAP, "The reel that works and the spare one change places (either may be OFF)");
+        for (int n : new int[] {0, 1, 63}) {
+            ReelLoom x = Looms.reel(sort, n, 1);
             x.swap(sort);
-            DUE.answers("the copied cell 0", 0, () -> x.get(sort, 0));
-            DUE.answers("the copied cell 63 stays", 1, () -> x.get(sort, 63));
-            x.mount(sort, 0);
-            DUE.answers("copy of an empty reel", 0, () -> x.copy(sort));
-            DUE.answers("its size", 0, () -> x.size(sort, true));
+            x.mount(sort, 64);
+            x.swap(sort);
+            cells("the short one", x, sort, n, 1);
+            DUE.answers("the long one is spare", 64, () -> x.size(sort, true));
+            x.swap(sort);
+            cells("the long one", x, sort, 64, 0);
+            DUE.answers("the short one is spare", n, () -> x.size(sort, true));
+        }
+    }
+
+    private static void swapAnswersTheLengthNow(int sort) {
+        DUE.sentence(SWAP, "how many cells the one has that works now, -1 if it is OFF.");
+        for (int n : new int[] {0, 1, 63, 64}) {
+            ReelLoom x = new ReelLoom();
+            x.mount(sort, n);
+            DUE.answers("swap of " + n + " with none", -1, () -> x.swap(sort));
+            x.mount(sort, 5);
+            DUE.answers("swap of 5 with " + n, n, () -> x.swap(sort));
+            DUE.answers("swap of " + n + " with 5", 5, () -> x.swap(sort));
             x.off(sort);
-            DUE.refuses("copy of a reel that is off", STATE, () -> x.copy(sort));
-            DUE.answers("the spare stays", 0, () -> x.size(sort, true));
+            DUE.answers("swap of none with " + n, n, () -> x.swap(sort));
         }
     }
 
-    private static void sizeTellsBoth() {
-        ReelLoom x = new ReelLoom();
-        x.mount(4, 7);
-        x.copy(4);
-        x.mount(4, 5);
-        DUE.answers("size(4, false)", 5, () -> x.size(4, false));
-        DUE.answers("size(4, true)", 7, () -> x.size(4, true));
-        DUE.answers("size(3, true)", -1, () -> x.size(3, true));
-    }
-
-    private static void getAndSetRefuse() {
-        for (int k = 0; k < 5; k++) {
-            int sort = k;
-            ReelLoom x = new ReelLoom();
-            DUE.refuses("get of none", STATE, () -> x.get(sort, -1));
-            DUE.refuses("set of none", STATE, () -> x.set(sort, 64, 1));
-            x.mount(sort, 0);
-            DUE.refuses("get of an empty reel", INDEX, () -> x.get(sort, 0));
-            DUE.refuses("set of an empty reel", INDEX, () -> x.set(sort, 0, 1));
-            x.mount(sort, 3);
-            for (int place : new int[] {-1, 3, 64, -64, Integer.MIN_VALUE, Integer.MAX_VALUE}) {
-                DUE.refuses("get at " + place, INDEX, () -> x.get(sort, place));
-                DUE.refuses("set at " + place, INDEX, () -> x.set(sort, place, 1));
-            }
-            DUE.answers("set at the last place", 1, () -> x.set(sort, 2, 1));
-            DUE.answers("get at the last place", 1, () -> x.get(sort, 2));
-            DUE.answers("get beside it", 0, () -> x.get(sort, 1));
-        }
-    }
-
-    private static void setFitsTheNumber() {
-        int lowest = Integer.MIN_VALUE;
-        int highest = Integer.MAX_VALUE;
-        int[][] threads = {{0, 0}, {65535, 65535}, {65536, 0}, {-1, 65535}, {highest, 65535}, {lowest, 0}, {-65537, 65535}};
-        int[][] turns = {{32767, 32767}, {32768, -32768}, {-32768, -32768}, {-32769, 32767}, {65536, 0}, {highest, -1}, {lowest, 0}};
-        int[][] pulls = {{800000, 800000}, {800001, 800000}, {-800000, -800000}, {-800001, -800000}, {-5, -5}, {highest, 800000}, {lowest, -800000}};
-        int[][] lifts = {{0, 0}, {1, 1}, {2, 1}, {-1, 1}, {65536, 1}, {256, 1}, {highest, 1}, {lowest, 1}};
-        int[][] wear = {{127, 127}, {128, -128}, {-128, -128}, {-129, 127}, {256, 0}, {255, -1}, {highest, -1}, {lowest, 0}};
-        int[][][] bySort = {threads, turns, pulls, lifts, wear};
-        for (int k = 0; k < 5; k++) {
-            int sort = k;
-            ReelLoom x = new ReelLoom();
-            x.mount(sort, 2);
-            for (int[] pair : bySort[sort]) {
-                DUE.answers("set(" + sort + ", 1, " + pair[0] + ")", pair[1], () -> x.set(sort, 1, pair[0]));
-                DUE.answers("get behind it", pair[1], () -> x.get(sort, 1));
-            }
-            DUE.answers("the cell beside it", 0, () -> x.get(sort, 0));
-        }
-    }
-
-    private static void altered(int sort, int has, int how, int v, int due) {
-        ReelLoom x = new ReelLoom();
-        x.mount(sort, 1);
-        x.set(sort, 0, has);
-        DUE.answers("alter(" + sort + ", 0, " + how + ", " + v + ") of " + has, due, () -> x.alter(sort, 0, how, v));
-        DUE.answers("get behind it", due, () -> x.get(sort, 0));
-    }
-
-    private static void alterCombines() {
-        altered(0, 65535, 0, 1, 0);
-        altered(0, 65535, 0, Integer.MAX_VALUE, 65534);
-        altered(0, 0, 1, 1, 65535);
-        altered(0, 300, 2, 300, 90000 - 65536);
-        altered(0, 65535, 2, Integer.MAX_VALUE, 1);
-        altered(0, 0xF0F0, 3, -1, 0xF0F0);
-        altered(0, 0xF0F0, 3, 0xFF, 0xF0);
-        altered(0, 0xF0F0, 4, 0x10F, 0xF1FF);
-        altered(0, 0xF0F0, 5, -1, 0x0F0F);
-        altered(0, 1, 6, 15, 32768);
-        altered(0, 1, 6, 16, 0);
-        altered(0, 3, 6, 33, 6);
-        altered(0, 3, 6, -31, 6);
-        altered(0, 65535, 7, 4, 4095);
-        altered(0, 65535, 7, 32, 65535);
-        altered(0, 65535, 8, 4, 4095);
-        altered(0, 65535, 8, -28, 4095);
-        altered(1, 32767, 0, 1, -32768);
-        altered(1, -32768, 1, 1, 32767);
-        altered(1, -32768, 2, -1, -32768);
-        altered(1, -1, 3, 0x7FFF, 32767);
-        altered(1, -32768, 4, 1, -32767);
-        altered(1, 5, 5, -1, -6);
-        altered(1, 1, 6, 15, -32768);
-        altered(1, -32768, 7, 15, -1);
-        altered(1, -32768, 7, 47, -1);
-        altered(1, -32768, 8, 31, 1);
-        altered(1, -1, 8, 16, -1);
-        altered(1, -1, 8, 17, 32767);
-        altered(4, 127, 0, 1, -128);
-        altered(4, -128, 1, 1, 127);
-        altered(4, 16, 2, 16, 0);
-        altered(4, 100, 2, 3, 44);
-        altered(4, -1, 3, 0x7F, 127);
-        altered(4, 1, 4, 0x80, -127);
-        altered(4, 1, 5, 3, 2);
-        altered(4, 1, 6, 7, -128);
-        altered(4, -128, 7, 3, -16);
-        altered(4, -1, 8, 25, 127);
-        altered(4, -1, 8, 24, -1);
-    }
-
-    private static void alterOfPulls() {
-        altered(PULLS, 799999, 0, 1, 800000);
-        altered(PULLS, 800000, 0, 1, 800000);
-        altered(PULLS, 800000, 0, 800000, 800000);
-        altered(PULLS, 800000, 0, -800000, 0);
-        altered(PULLS, 800000, 1, 800000, 0);
-        altered(PULLS, -800000, 1, 1, -800000);
-        altered(PULLS, -800000, 1, 800000, -800000);
-        altered(PULLS, 3, 1, -4, 7);
-        ReelLoom x = new ReelLoom();
-        x.mount(PULLS, 1);
-        x.set(PULLS, 0, 11);
-        for (int how : new int[] {-1, 2, 3, 4, 5, 6, 7, 8, 9}) {
-            DUE.refuses("alter of pulls, how " + how, ARGUMENT, () -> x.alter(PULLS, 0, how, 1));
-        }
-        for (int v : new int[] {800001, -800001, Integer.MAX_VALUE, Integer.MIN_VALUE}) {
-            DUE.refuses("alter of pulls, up by " + v, ARGUMENT, () -> x.alter(PULLS, 0, 0, v));
-            DUE.refuses("alter of pulls, down by " + v, ARGUMENT, () -> x.alter(PULLS, 0, 1, v));
-        }
-        DUE.answers("the pull stays", 11, () -> x.get(PULLS, 0));
-    }
-
-    private static void alterOfLifts() {
-        for (int v : new int[] {0, 1, 2, -1, 65536, Integer.MIN_VALUE}) {
-            int bit = v == 0 ? 0 : 1;
-            altered(LIFTS, 0, 3, v, 0);
-            altered(LIFTS, 1, 3, v, bit);
-            altered(LIFTS, 0, 4, v, bit);
-            altered(LIFTS, 1, 4, v, 1);
-            altered(LIFTS, 0, 5, v, bit);
-            altered(LIFTS, 1, 5, v, 1 - bit);
-        }
-        ReelLoom x = new ReelLoom();
-        x.mount(LIFTS, 1);
-        for (int how : new int[] {-1, 0, 1, 2, 6, 7, 8, 9}) {
-            DUE.refuses("alter of lifts, how " + how, ARGUMENT, () -> x.alter(LIFTS, 0, how, 1));
-        }
-        DUE.answers("the lift stays", 0, () -> x.get(LIFTS, 0));
-    }
-
-    private static void alterRefuses() {
-        for (int k = 0; k < 5; k++) {
-            int sort = k;
-            int how = sort == LIFTS ? 4 : 0;
-            ReelLoom x = new ReelLoom();
-            for (int wrong : new int[] {-1, 9, Integer.MIN_VALUE, Integer.MAX_VALUE}) {
-                DUE.refuses("how " + wrong + " of none", ARGUMENT, () -> x.alter(sort, -1, wrong, 1));
-            }
-            DUE.refuses("alter of none", STATE, () -> x.alter(sort, -1, how, 1));
-            x.mount(sort, 2);
-            for (int place : new int[] {-1, 2, 64, Integer.MIN_VALUE, Integer.MAX_VALUE}) {
-                DUE.refuses("alter at " + place, INDEX, () -> x.alter(sort, place, how, 1));
-                DUE.refuses("a wrong how at " + place, ARGUMENT, () -> x.alter(sort, place, 9, 1));
-            }
-            DUE.answers("alter at the last place", 1, () -> x.alter(sort, 1, how, 1));
-            DUE.answers("the cell beside it", 0, () -> x.get(sort, 0));
-        }
-        ReelLoom x = new ReelLoom();
-        DUE.refuses("a wrong v of none", ARGUMENT, () -> x.alter(PULLS, 0, 0, 800001));
-        x.mount(PULLS, 1);
-        DUE.refuses("a wrong v at no place", ARGUMENT, () -> x.alter(PULLS, 1, 0, 800001));
-    }
-
-    private static void noSuchSortComesFirst() {
-        ReelLoom x = new ReelLoom();
-        for (int sort : NO_SORTS) {
-            DUE.refuses("mount(" + sort + ")", ARGUMENT, () -> x.mount(sort, 1));
-            DUE.refuses("off(" + sort + ")", ARGUMENT, () -> x.off(sort));
-            DUE.refuses("swap(" + sort + ")", ARGUMENT, () -> x.swap(sort));
-            DUE.refuses("copy(" + sort + ")", ARGUMENT, () -> x.copy(sort));
-            DUE.refuses("size(" + sort + ", false)", ARGUMENT, () -> x.size(sort, false));
-            DUE.refuses("size(" + sort + ", true)", ARGUMENT, () -> x.size(sort, true));
-            DUE.refuses("get(" + sort + ")", ARGUMENT, () -> x.get(sort, -1));
-            DUE.refuses("set(" + sort + ")", ARGUMENT, () -> x.set(sort, -1, 1));
-            DUE.refuses("alter(" + sort + ")", ARGUMENT, () -> x.alter(sort, -1, 0, 1));
-        }
-    }
-
-    private static ReelLoom threaded() {
-        ReelLoom x = new ReelLoom();
-        for (int sort = 0; sort < 4; sort++) {
-            x.mount(sort, 2);
-            x.set(sort, 0, 1);
+    private static void copyIsLikeTheOneThatWorks(int sort) {
+        DUE.sentence(COPY, "The spare one becomes a new reel like the one that works");
+        for (int n : new int[] {0, 1, 63, 64}) {
+            ReelLoom x = Looms.reel(sort, n, 1);
             x.copy(sort);
-            x.set(sort, 1, 1);
+            cells("the one that works, of " + n, x, sort, n, 1);
+            x.swap(sort);
+            cells("the copy of " + n, x, sort, n, 1);
         }
-        x.weave(1, 2);
-        x.pass(0, 7);
-        return x;
     }
 
-    private static void refusedCallsChangeNothing() {
-        String before = Glance.of(threaded());
-        ReelLoom x = threaded();
-        DUE.refuses("mount(0, 65)", ARGUMENT, () -> x.mount(0, 65));
-        DUE.refuses("mount(4, -1)", ARGUMENT, () -> x.mount(4, -1));
-        DUE.refuses("off(4)", STATE, () -> x.off(4));
-        DUE.refuses("copy(4)", STATE, () -> x.copy(4));
-        DUE.refuses("get(4, 0)", STATE, () -> x.get(4, 0));
-        DUE.refuses("get(0, 2)", INDEX, () -> x.get(0, 2));
-        DUE.refuses("set(4, 0, 1)", STATE, () -> x.set(4, 0, 1));
-        DUE.refuses("set(0, 2, 1)", INDEX, () -> x.set(0, 2, 1));
-        DUE.refuses("alter(4, 0, 0, 1)", STATE, () -> x.alter(4, 0, 0, 1));
-        DUE.refuses("alter(1, 2, 0, 1)", INDEX, () -> x.alter(1, 2, 0, 1));
-        DUE.refuses("alter(1, 0, 9, 1)", ARGUMENT, () -> x.alter(1, 0, 9, 1));
-        DUE.refuses("alter(2, 0, 0, 800001)", ARGUMENT, () -> x.alter(2, 0, 0, 800001));
-        DUE.refuses("alter(3, 0, 0, 1)", ARGUMENT, () -> x.alter(3, 0, 0, 1));
-        DUE.refuses("swap(5)", ARGUMENT, () -> x.swap(5));
-        DUE.compare("after refused calls", before, Glance.of(x));
+    private static void copyIsAReelOfItsOwn(int sort) {
+        DUE.sentence(COPY, "The spare one becomes a new reel like the one that works");
+        ReelLoom x = Looms.reel(sort, 64, 1);
+        x.copy(sort);
+        x.set(sort, 0, 0);
+        x.set(sort, 63, 0);
+        x.swap(sort);
+        cells("the copy, the other one being altered", x, sort, 64, 1);
+        x.set(sort, 5, 0);
+        x.swap(sort);
+        DUE.answers("the one that was copied: get(0)", 0, () -> x.get(sort, 0));
+        DUE.answers("the one that was copied: get(5)", 1, () -> x.get(sort, 5));
+        DUE.answers("the one that was copied: get(63)", 0, () -> x.get(sort, 63));
+    }
+
+    private static void copyOverAnotherSpare(int sort) {
+        DUE.sentence(COPY, "The spare one becomes a new reel like the one that works");
+        for (int n : new int[] {0, 1, 64}) {
+            for (int before : new int[] {0, 1, 64}) {
+                ReelLoom x = Looms.reel(sort, before, 1);
+                x.swap(sort);
+                x.mount(sort, n);
+                x.copy(sort);
+                cells("works, a copy of " + n + " over " + before, x, sort, n, 0);
+                x.swap(sort);
+                cells("a copy of " + n + " over " + before, x, sort, n, 0);
+            }
+        }
+    }
+
+    private static void copyAnswersTheLength(int sort) {
+        DUE.sentence(COPY, "how many cells it has");
+        for (int n : new int[] {0, 1, 63, 64}) {
+            ReelLoom x = new ReelLoom();
+            x.mount(sort, n);
+            DUE.answers("copy(" + sort + ") of " + n, n, () -> x.copy(sort));
+            DUE.answers("size(" + sort + ", true)", n, () -> x.size(sort, true));
+        }
+    }
+
+    private static void copyOfNone(int sort) {
+        DUE.sentence(COPY, "IllegalStateException: that is OFF.");
+        DUE.refuses("copy(" + sort + ") of a new object", STATE, ReelLoom::new, x -> x.copy(sort));
+        DUE.refuses("copy(" + sort + ") over a spare", STATE, () -> Looms.workedWithout(sort), x -> x.copy(sort));
+        ReelLoom x = new ReelLoom();
+        x.mount(sort, 0);
+        DUE.answers("copy(" + sort + ") of an empty reel", 0, () -> x.copy(sort));
+    }
+
+    private static void sizeOfBoth(int sort) {
+        DUE.sentence(SIZE, "How many cells a reel has (spare: the spare one, else the one that works)");
+        for (int n : new int[] {0, 1, 63, 64}) {
+            ReelLoom x = new ReelLoom();
+            x.mount(sort, n);
+            x.swap(sort);
+            x.mount(sort, 7);
+            DUE.answers("size(" + sort + ", true) of " + n, n, () -> x.size(sort, true));
+            DUE.answers("size(" + sort + ", false) of 7", 7, () -> x.size(sort, false));
+            x.swap(sort);
+            DUE.answers("size(" + sort + ", true) of 7", 7, () -> x.size(sort, true));
+            DUE.answers("size(" + sort + ", false) of " + n, n, () -> x.size(sort, false));
+        }
+    }
+
+    private static void sizeOfNone(int sort) {
+        DUE.sentence(SIZE, "-1 if it is OFF.");
+        ReelLoom x = new ReelLoom();
+        DUE.answers("new: size(" + sort + ", false)", -1, () -> x.size(sort, false));
+        DUE.answers("new: size(" + sort + ", true)", -1, () -> x.size(sort, true));
+        x.mount(sort, 0);
+        DUE.answers("size(" + sort + ", true) beside one that works", -1, () -> x.size(sort, true));
+        x.copy(sort);
+        x.off(sort);
+        DUE.answers("size(" + sort + ", false) beside a spare", -1, () -> x.size(sort, false));
+        DUE.answers("size(" + sort + ", true) of it", 0, () -> x.size(sort, true));
+    }
+
+    private static void getAtEachEdge(int sort) {
+        DUE.sentence(GET, "Cell i of the reel that works.");
+        for (int n : new int[] {1, 2, 63, 64}) {
+            for (int place : new int[] {0, n - 1}) {
+                ReelLoom x = new ReelLoom();
+                x.mount(sort, n);
+                x.set(sort, place, 1);
+                for (int k = 0; k < n; k++) {
+                    int i = k;
+                    DUE.answers("get(" + sort + ", " + i + ") of " + n, i == place ? 1 : 0, () -> x.get(sort, i));
+                }
+            }
+        }
+    }
+
+    private static void getOfNone(int sort) {
+        DUE.sentence(GET, "IllegalStateException: it is OFF (here and below)");
+        for (int i : new int[] {0, 1, -1, 64}) {
+            String call = "get(" + sort + ", " + i + ")";
+            DUE.refuses(call, STATE, ReelLoom::new, x -> x.get(sort, i));
+            DUE.refuses(call + " beside a spare", STATE, () -> Looms.workedWithout(sort), x -> x.get(sort, i));
+        }
+    }
+
+    /** The places that a reel of worked() has not: it has 4 cells, of TURNS 3; its spare has 2. */
+    private static int[] noPlaces(int sort) {
+        return new int[] {-1, sort == Looms.TURNS ? 3 : 4, 5, 63, 64, -64, LOWEST, HIGHEST};
+    }
+
+    private static void getOfNoSuchCell(int sort) {
+        DUE.sentence(GET, "IndexOutOfBoundsException: it has no cell i (here and below).");
+        for (int i : noPlaces(sort)) {
+            DUE.refuses("get(" + sort + ", " + i + ")", INDEX, Looms::worked, x -> x.get(sort, i));
+        }
+        for (int i : new int[] {-1, 0, 1, 64}) {
+            DUE.refuses("get(" + sort + ", " + i + ") of an empty reel", INDEX,
+                    () -> Looms.workedWithEmpty(sort), x -> x.get(sort, i));
+        }
+        ReelLoom full = Looms.reel(sort, 64, 1);
+        DUE.answers("get(" + sort + ", 63) of a full reel", 1, () -> full.get(sort, 63));
+        DUE.refuses("get(" + sort + ", 64) of a full reel", INDEX, () -> full.get(sort, 64));
+        DUE.refuses("get(" + sort + ", -1) of a full reel", INDEX, () -> full.get(sort, -1));
+    }
+
+    private static void setAnswersWhatTheCellHas(int sort) {
+        DUE.sentence(SET, "v is put into cell i of the reel that works: what the cell has then.");
+        int[] first = {65535, -32768, -800000, 1, -128};
+        int[] last = {0, 32767, 800000, 1, 127};
+        int[] beyond = {65536, 32768, 800001, 2, 128};
+        int[] fromBeyond = {0, -32768, 800000, 1, -128};
+        for (int n : new int[] {1, 2, 63, 64}) {
+            ReelLoom x = new ReelLoom();
+            x.mount(sort, n);
+            x.copy(sort);
+            DUE.answers("set at the first place of " + n, first[sort], () -> x.set(sort, 0, first[sort]));
+            DUE.answers("get at the first place of " + n, first[sort], () -> x.get(sort, 0));
+            DUE.answers("set at the last place of " + n, last[sort], () -> x.set(sort, n - 1, last[sort]));
+            DUE.answers("get at the last place of " + n, last[sort], () -> x.get(sort, n - 1));
+            DUE.answers("set of a number beyond", fromBeyond[sort], () -> x.set(sort, n - 1, beyond[sort]));
+            DUE.answers("get of a number beyond", fromBeyond[sort], () -> x.get(sort, n - 1));
+            DUE.answers("set of 0", 0, () -> x.set(sort, n - 1, 0));
+            x.swap(sort);
+            cells("the spare stays", x, sort, n, 0);
+        }
+    }
+
+    private static void setOfNone(int sort) {
+        DUE.sentence(GET, "IllegalStateException: it is OFF (here and below)");
+        for (int i : new int[] {0, 1, -1, 64}) {
+            String call = "set(" + sort + ", " + i + ", 1)";
+            DUE.refuses(call, STATE, ReelLoom::new, x -> x.set(sort, i, 1));
+            DUE.refuses(call + " beside a spare", STATE, () -> Looms.workedWithout(sort), x -> x.set(sort, i, 1));
+        }
+    }
+
+    private static void setOfNoSuchCell(int sort) {
+        DUE.sentence(GET, "IndexOutOfBoundsException: it has no cell i (here and below).");
+        for (int i : noPlaces(sort)) {
+            DUE.refuses("set(" + sort + ", " + i + ", 1)", INDEX, Looms::worked, x -> x.set(sort, i, 1));
+        }
+        for (int i : new int[] {-1, 0, 1, 64}) {
+            DUE.refuses("set(" + sort + ", " + i + ", 1) of an empty reel", INDEX,
+                    () -> Looms.workedWithEmpty(sort), x -> x.set(sort, i, 1));
+        }
+        ReelLoom full = new ReelLoom();
+        full.mount(sort, 64);
+        DUE.answers("set(" + sort + ", 63, 1) of a full reel", 1, () -> full.set(sort, 63, 1));
+        DUE.refuses("set(" + sort + ", 64, 1) of a full reel", INDEX, () -> full.set(sort, 64, 1));
+        DUE.refuses("set(" + sort + ", -1, 1) of a full reel", INDEX, () -> full.set(sort, -1, 1));
+    }
+
+    private static void noSuchSort() {
+        DUE.sentence(MOUNT, "IllegalArgumentException: there is no such sort (here and below)");
+        for (int sort : new int[] {-1, 5, 6, LOWEST, HIGHEST}) {
+            DUE.refuses("mount(" + sort + ", 1)", ARGUMENT, Looms::worked, x -> x.mount(sort, 1));
+            DUE.refuses("off(" + sort + ")", ARGUMENT, Looms::worked, x -> x.off(sort));
+            DUE.refuses("swap(" + sort + ")", ARGUMENT, Looms::worked, x -> x.swap(sort));
+            DUE.refuses("copy(" + sort + ")", ARGUMENT, Looms::worked, x -> x.copy(sort));
+            DUE.refuses("size(" + sort + ", false)", ARGUMENT, Looms::worked, x -> x.size(sort, false));
+            DUE.refuses("size(" + sort + ", true)", ARGUMENT, Looms::worked, x -> x.size(sort, true));
+            DUE.refuses("get(" + sort + ", 0)", ARGUMENT, Looms::worked, x -> x.get(sort, 0));
+            DUE.refuses("set(" + sort + ", 0, 1)", ARGUMENT, Looms::worked, x -> x.set(sort, 0, 1));
+            for (int h = 0; h < 9; h++) {
+                int how = h;
+                DUE.refuses("alter(" + sort + ", 0, " + how + ", 1)", ARGUMENT, Looms::worked,
+                        x -> x.alter(sort, 0, how, 1));
+            }
+        }
     }
 
     private ReelTest() {
