@@ -1,6 +1,7 @@
 /**
- * Every call with every edge of its arguments, all of them together, on looms in each unlike
- * state: the answer and all that is there behind it have to be what the model has.
+ * Every call with every edge of its arguments, all of them together, on looms in unlike states:
+ * the answer has to be the model's, and so has what is there behind it (in the first places of
+ * each row; behind alter and dye, for their many arguments, the cell itself and a sum alone).
  */
 public final class EdgeTest {
     private static final int LOWEST = Looms.LOWEST;
